@@ -418,7 +418,10 @@ public final class HandleHouse {
         }
 
         boolean isBelow(int kind, int other) {
-            return has(kind) && has(other) && below[kind * KINDS + other];
+            if (kind < 0 || kind >= count || other < 0 || other >= count) {
+                return false;
+            }
+            return below[kind * KINDS + other];
         }
 
         int parentOf(int kind) {
@@ -434,22 +437,22 @@ public final class HandleHouse {
         }
 
         boolean allows(int from, int to, boolean forced) {
-            if (!hasValues(from) || !hasValues(to)) {
+            if (from <= V || from >= count || to <= V || to >= count) {
                 return false;
             }
-            if (from == to) {
+            if (from == to || from >= O && to >= O || from == O) {
                 return true;
             }
-            if (isPlain(from)) {
-                return isPlain(to) ? forced || widens(from, to) : isBelow(from + BOXING, to);
+            if (from <= J && to <= J) {
+                return forced || widens(from, to);
             }
-            if (isReference(to) || from == O) {
-                return true;
+            if (from <= J) {
+                return isBelow(from + BOXING, to);
             }
             if (from == N) {
                 return forced || isBelow(to + BOXING, N);
             }
-            return isBox(from) && (forced || opens(from, to));
+            return isBox(from) && (forced || from - BOXING == to || widens(from - BOXING, to));
         }
 
         boolean allowsResult(int from, int to, boolean forced) {
@@ -468,10 +471,7 @@ public final class HandleHouse {
             return from == B && to == S || to > from && (to == I || to == J);
         }
 
-        boolean holds(int kind, long n) {
-            return isPlain(kind) && narrowed(n, kind) == n;
-        }
-
+        /** A number's lowest bits as one of a PLAIN kind: the same number if it is one. */
         long narrowed(long n, int kind) {
             switch (kind) {
                 case Z:
@@ -514,15 +514,18 @@ public final class HandleHouse {
         }
 
         int resultOf(int type) {
-            return has(type) ? results[type] : NONE;
+            return type >= 0 && type < size ? results[type] : NONE;
         }
 
         int placesOf(int type) {
-            return has(type) ? counts[type] : 0;
+            return type >= 0 && type < size ? counts[type] : 0;
         }
 
         int place(int type, int i) {
-            return i >= 0 && i < placesOf(type) ? places[type * MOST_PLACES + i] : NONE;
+            if (type < 0 || type >= size || i < 0 || i >= counts[type]) {
+                return NONE;
+            }
+            return places[type * MOST_PLACES + i];
         }
 
         void begin() {
@@ -565,11 +568,8 @@ public final class HandleHouse {
         }
 
         int settle(int result) {
-            if (!fits(result)) {
-                return NONE;
-            }
-            int known = known(result);
-            if (known != NONE || size >= MOST_TYPES) {
+            int known = drafted <= MOST_PLACES ? known(result) : NONE;
+            if (known != NONE || drafted > MOST_PLACES || size >= MOST_TYPES) {
                 return known;
             }
             results[size] = result;
@@ -581,14 +581,17 @@ public final class HandleHouse {
 
         /** Whether n places of one type, from some on, are of the kinds of those of another. */
         boolean agree(int type, int from, int other, int otherFrom, int n) {
+            if (type < 0 || type >= size || other < 0 || other >= size) {
+                return false;
+            }
             if (from < 0 || otherFrom < 0 || n < 0) {
                 return false;
             }
-            if (from + n > placesOf(type) || otherFrom + n > placesOf(other)) {
+            if (from + n > counts[type] || otherFrom + n > counts[other]) {
                 return false;
             }
-            for (int i = 0; i < n && i < MOST_PLACES; i++) {
-                if (place(type, from + i) != place(other, otherFrom + i)) {
+            for (int i = 0; i < n; i++) {
+                if (places[type * MOST_PLACES + from + i] != places[other * MOST_PLACES + otherFrom + i]) {
                     return false;
                 }
             }
@@ -605,7 +608,9 @@ public final class HandleHouse {
                     return false;
                 }
             }
-            return kinds.allowsResult(resultOf(type), resultOf(outer), forced);
+            int came = resultOf(type);
+            int due = resultOf(outer);
+            return came == V || due == V || kinds.allows(came, due, forced);
         }
     }
 
@@ -656,9 +661,13 @@ public final class HandleHouse {
         private final int[] aRow = new int[MOST_HANDLES];
         private final int[] bRow = new int[MOST_HANDLES];
         private final long[] cRow = new long[MOST_HANDLES];
-        private final int[] typeRow = new int[MOST_HANDLES];
         private final int[] counts = new int[MOST_HANDLES];
         private final int[] parts = new int[MOST_HANDLES * MOST_PARTS];
+        private final int[] typeRow = new int[MOST_HANDLES];
+        /** What each one's TYPE has stands here, too, as calls ask for it at each step. */
+        private final int[] resultRow = new int[MOST_HANDLES];
+        private final int[] placeCounts = new int[MOST_HANDLES];
+        private final int[] places = new int[MOST_HANDLES * MOST_PLACES];
         private int size = 0;
 
         Handles(Types types) {
@@ -674,49 +683,55 @@ public final class HandleHouse {
         }
 
         int form(int h) {
-            return has(h) ? formRow[h] : NONE;
+            return h >= 0 && h < size ? formRow[h] : NONE;
         }
 
         int a(int h) {
-            return has(h) ? aRow[h] : 0;
+            return h >= 0 && h < size ? aRow[h] : 0;
         }
 
         int b(int h) {
-            return has(h) ? bRow[h] : 0;
+            return h >= 0 && h < size ? bRow[h] : 0;
         }
 
         long c(int h) {
-            return has(h) ? cRow[h] : 0;
+            return h >= 0 && h < size ? cRow[h] : 0;
         }
 
         int typeOf(int h) {
-            return has(h) ? typeRow[h] : NONE;
+            return h >= 0 && h < size ? typeRow[h] : NONE;
         }
 
         int partsOf(int h) {
-            return has(h) ? counts[h] : 0;
+            return h >= 0 && h < size ? counts[h] : 0;
         }
 
         int part(int h, int i) {
-            return i >= 0 && i < partsOf(h) ? parts[h * MOST_PARTS + i] : NONE;
+            if (h < 0 || h >= size || i < 0 || i >= counts[h]) {
+                return NONE;
+            }
+            return parts[h * MOST_PARTS + i];
         }
 
         int resultOf(int h) {
-            return types.resultOf(typeOf(h));
+            return h >= 0 && h < size ? resultRow[h] : NONE;
         }
 
         int placesOf(int h) {
-            return types.placesOf(typeOf(h));
+            return h >= 0 && h < size ? placeCounts[h] : 0;
         }
 
         int place(int h, int i) {
-            return types.place(typeOf(h), i);
+            if (h < 0 || h >= size || i < 0 || i >= placeCounts[h]) {
+                return NONE;
+            }
+            return places[h * MOST_PLACES + i];
         }
 
         /** The kind of a LOOP clause's VARIABLE; V for none. */
         int variableKind(int init, int step) {
             int teller = step == NONE ? init : step;
-            return teller == NONE ? V : resultOf(teller);
+            return teller < 0 || teller >= size ? V : resultRow[teller];
         }
 
         int known(int form, int a, int b, long c, Row row) {
@@ -729,7 +744,7 @@ public final class HandleHouse {
         }
 
         private boolean hasParts(int h, Row row) {
-            if (partsOf(h) != row.size()) {
+            if (counts[h] != row.size()) {
                 return false;
             }
             for (int i = 0; i < row.size(); i++) {
@@ -748,10 +763,15 @@ public final class HandleHouse {
             aRow[size] = a;
             bRow[size] = b;
             cRow[size] = c;
-            typeRow[size] = type;
             counts[size] = row.size();
             for (int i = 0; i < row.size() && i < MOST_PARTS; i++) {
                 parts[size * MOST_PARTS + i] = row.at(i);
+            }
+            typeRow[size] = type;
+            resultRow[size] = types.resultOf(type);
+            placeCounts[size] = types.placesOf(type);
+            for (int i = 0; i < types.placesOf(type) && i < MOST_PLACES; i++) {
+                places[size * MOST_PLACES + i] = types.place(type, i);
             }
             size++;
             return size - 1;
@@ -778,11 +798,11 @@ public final class HandleHouse {
         }
 
         long number(int i) {
-            return has(i) ? numbers[i] : 0;
+            return i >= 0 && i < numbers.length ? numbers[i] : 0;
         }
 
         int tag(int i) {
-            return has(i) ? tags[i] : 0;
+            return i >= 0 && i < tags.length ? tags[i] : 0;
         }
 
         boolean holds(int i, long number, int tag) {
@@ -877,7 +897,7 @@ public final class HandleHouse {
         /** Why c can't stand for a value of a kind: the refusal, or 0. */
         int constantTrouble(int kind, long c) {
             if (kinds.isPlain(kind)) {
-                return kinds.holds(kind, c) ? 0 : MISPLACED;
+                return kinds.narrowed(c, kind) == c ? 0 : MISPLACED;
             }
             if (c == NONE) {
                 return 0;
@@ -885,7 +905,7 @@ public final class HandleHouse {
             if (c < 0 || c >= keptCount) {
                 return NO_SUCH;
             }
-            return kinds.isBelow(valueTag(c), kind) ? 0 : OTHER_KINDS;
+            return kinds.isBelow(kept.tag((int) c), kind) ? 0 : OTHER_KINDS;
         }
 
         long constantNumber(int kind, long c) {
@@ -1014,9 +1034,14 @@ public final class HandleHouse {
             h = row.at(0);
             f = row.at(1);
             g = row.at(2);
-            int refusal = refusalOf();
-            if (refusal != 0) {
-                return -refusal;
+            if (lacksParts() || lacks()) {
+                return -NO_SUCH;
+            }
+            if (isMisplaced()) {
+                return -MISPLACED;
+            }
+            if (disagrees()) {
+                return -OTHER_KINDS;
             }
             int simpler = simpler();
             if (simpler != NONE) {
@@ -1038,16 +1063,6 @@ public final class HandleHouse {
                 return -NO_ROOM;
             }
             return handles.append(form, a, b, c, row, types.settle(result));
-        }
-
-        private int refusalOf() {
-            if (lacksParts() || lacks()) {
-                return NO_SUCH;
-            }
-            if (isMisplaced()) {
-                return MISPLACED;
-            }
-            return disagrees() ? OTHER_KINDS : 0;
         }
 
         private boolean lacksParts() {
@@ -1172,7 +1187,7 @@ public final class HandleHouse {
                     return disagreesGiven();
                 case FOLD:
                     return disagreesGiven()
-                        || !types.agree(typeOf(f), 0, typeOf(h), a + given(), handles.placesOf(f));
+                        || !types.agree(handles.typeOf(f), 0, handles.typeOf(h), a + given(), handles.placesOf(f));
                 case RESULT:
                     return handles.placesOf(f) != (handles.resultOf(h) == V ? 0 : 1)
                         || handles.resultOf(h) != V && handles.place(f, 0) != handles.resultOf(h);
@@ -1182,10 +1197,10 @@ public final class HandleHouse {
                     return !kinds.isRow(lastPlace());
                 case AS:
                 case FORCED:
-                    return !types.allowsAs(typeOf(h), b, form == FORCED);
+                    return !types.allowsAs(handles.typeOf(h), b, form == FORCED);
                 case GUARD:
-                    return typeOf(f) != typeOf(g) || handles.resultOf(h) != Z
-                        || !types.agree(typeOf(h), 0, typeOf(f), 0, handles.placesOf(h));
+                    return handles.typeOf(f) != handles.typeOf(g) || handles.resultOf(h) != Z
+                        || !types.agree(handles.typeOf(h), 0, handles.typeOf(f), 0, handles.placesOf(h));
                 case CATCH:
                     return handles.place(f, 0) != a || disagreesBehind(1);
                 case FINALLY:
@@ -1195,14 +1210,10 @@ public final class HandleHouse {
                 case LOOP:
                     return disagreesLoop();
                 case POINT:
-                    return typeOf(h) != typeOf(f);
+                    return handles.typeOf(h) != handles.typeOf(f);
                 default:
                     return false;
             }
-        }
-
-        private int typeOf(int part) {
-            return handles.typeOf(part);
         }
 
         private int lastPlace() {
@@ -1238,7 +1249,7 @@ public final class HandleHouse {
         /** Whether f hasn't first places of h behind some own ones, or h's RESULT. */
         private boolean disagreesBehind(int own) {
             return handles.resultOf(f) != handles.resultOf(h)
-                || !types.agree(typeOf(f), own, typeOf(h), 0, handles.placesOf(f) - own);
+                || !types.agree(handles.typeOf(f), own, handles.typeOf(h), 0, handles.placesOf(f) - own);
         }
 
         private boolean disagreesFinally() {
@@ -1253,7 +1264,7 @@ public final class HandleHouse {
 
         private boolean disagreesSwitch() {
             for (int i = 1; i < row.size(); i++) {
-                if (typeOf(row.at(i)) != typeOf(h)) {
+                if (handles.typeOf(row.at(i)) != handles.typeOf(h)) {
                     return true;
                 }
             }
@@ -1301,7 +1312,7 @@ public final class HandleHouse {
                 return false;
             }
             return step != NONE && handles.resultOf(step) != handles.resultOf(init)
-                || !types.agree(typeOf(init), 0, b, 0, handles.placesOf(init));
+                || !types.agree(handles.typeOf(init), 0, b, 0, handles.placesOf(init));
         }
 
         /** Whether a part called in rounds hasn't first places of (the VARIABLES, A). */
@@ -1322,10 +1333,10 @@ public final class HandleHouse {
                     return types.placesOf(b) == 0 ? h : NONE;
                 case MOVE:
                     joinMoves();
-                    return b == typeOf(h) && staysInPlace() ? h : NONE;
+                    return b == handles.typeOf(h) && staysInPlace() ? h : NONE;
                 case AS:
                 case FORCED:
-                    return b == typeOf(h) ? h : NONE;
+                    return b == handles.typeOf(h) ? h : NONE;
                 case COLLECT:
                 case RESULT:
                     return handles.form(f) == SELF ? h : NONE;
@@ -1368,29 +1379,29 @@ public final class HandleHouse {
                 case BIND:
                     return sketchInside(NONE, a + 1);
                 case COLLECT:
-                    return sketchInside(typeOf(f), a + given());
+                    return sketchInside(handles.typeOf(f), a + given());
                 case FOLD:
                     return sketchInside(NONE, a + given());
                 case RESULT:
-                    types.withPlaces(typeOf(h), 0, places);
+                    types.withPlaces(handles.typeOf(h), 0, places);
                     return handles.resultOf(f);
                 case SPREAD:
-                    types.withPlaces(typeOf(h), 0, places - b);
+                    types.withPlaces(handles.typeOf(h), 0, places - b);
                     types.with(a);
                     return handles.resultOf(h);
                 case GATHER:
-                    types.withPlaces(typeOf(h), 0, places - 1);
+                    types.withPlaces(handles.typeOf(h), 0, places - 1);
                     for (int i = 0; i < b && i < MOST_PLACES; i++) {
                         types.with(kinds.elementOf(lastPlace()));
                     }
                     return handles.resultOf(h);
                 case GUARD:
-                    return sketchType(typeOf(f));
+                    return sketchType(handles.typeOf(f));
                 case CATCH:
                 case FINALLY:
                 case SWITCH:
                 case POINT:
-                    return sketchType(typeOf(h));
+                    return sketchType(handles.typeOf(h));
                 case MOVE:
                 case AS:
                 case FORCED:
@@ -1402,7 +1413,7 @@ public final class HandleHouse {
                     types.with(H);
                     return sketchType(b);
                 case TARGET:
-                    return sketchType(typeOf(store.aimOf(a)));
+                    return sketchType(handles.typeOf(store.aimOf(a)));
                 default:
                     return sketchFirst();
             }
@@ -1410,9 +1421,9 @@ public final class HandleHouse {
 
         /** The places of h, but from a on those of a type, then h's from some place on. */
         private int sketchInside(int type, int again) {
-            types.withPlaces(typeOf(h), 0, a);
+            types.withPlaces(handles.typeOf(h), 0, a);
             types.withPlaces(type, 0, types.placesOf(type));
-            types.withPlaces(typeOf(h), again, handles.placesOf(h));
+            types.withPlaces(handles.typeOf(h), again, handles.placesOf(h));
             return handles.resultOf(h);
         }
 
@@ -2369,6 +2380,7 @@ public final class HandleHouse {
         private static final int LONG_NAME = 2;
         private static final int OUT_OF_BOUNDS = 3;
         private static final int MOST_LETTERS = 8;
+        private static final long LOWEST = 0x8000000000000000L;
         /** By their places: the operations that SIGN_OPERATIONS has. */
         private static final String SIGNS = "+-*/%&|^<=";
         private static final int[] SIGN_OPERATIONS = {0, 1, 2, 3, 4, 5, 6, 7, LESS, EQUAL};
@@ -2379,6 +2391,7 @@ public final class HandleHouse {
         private int at = 0;
         private int word = END;
         private int place = 0;
+        /** The FAULT of a BAD word. */
         private int trouble = 0;
         private int operation = 0;
         private long number = 0;
@@ -2473,20 +2486,16 @@ public final class HandleHouse {
         }
 
         private void skipBlanks() {
-            while (at < length && (byteAt(at) == ' ' || byteAt(at) == '\n')) {
+            while (at < length && (bytes[at] == ' ' || bytes[at] == '\n')) {
                 at++;
             }
-        }
-
-        private int spoil(int found) {
-            trouble = found;
-            return BAD;
         }
 
         private int stepSign(int c) {
             int i = SIGNS.indexOf((char) c);
             if (i < 0 || i >= SIGN_OPERATIONS.length) {
-                return spoil(NO_WORD);
+                trouble = NO_WORD;
+                return BAD;
             }
             operation = SIGN_OPERATIONS[i];
             return SIGN;
@@ -2495,12 +2504,13 @@ public final class HandleHouse {
         private int stepName() {
             int letters = 0;
             name = 0;
-            while (at < length && (isLetter(byteAt(at)) || isDigit(byteAt(at)))) {
-                name = name << 8 | byteAt(at);
+            while (at < length && (bytes[at] >= 'a' && bytes[at] <= 'z' || bytes[at] >= '0' && bytes[at] <= '9')) {
+                name = name << 8 | bytes[at];
                 letters++;
                 at++;
             }
-            return letters > MOST_LETTERS ? spoil(LONG_NAME) : NAME;
+            trouble = LONG_NAME;
+            return letters > MOST_LETTERS ? BAD : NAME;
         }
 
         /** Counts below 0, where there is room for one more. */
@@ -2510,22 +2520,23 @@ public final class HandleHouse {
             if (isNegative) {
                 at++;
             }
-            while (at < length && isDigit(byteAt(at))) {
-                int digit = byteAt(at) - '0';
-                fits = fits && low >= (Long.MIN_VALUE + digit) / 10;
+            while (at < length && bytes[at] >= '0' && bytes[at] <= '9') {
+                int digit = bytes[at] - '0';
+                fits = fits && low >= (LOWEST + digit) / 10;
                 low = low * 10 - digit;
                 at++;
             }
-            fits = fits && (isNegative || low != Long.MIN_VALUE);
+            fits = fits && (isNegative || low != LOWEST);
             number = isNegative ? low : -low;
             numberKind = I;
-            if (byteAt(at) == 'l') {
+            if (at < length && bytes[at] == 'l') {
                 numberKind = J;
                 at++;
             } else {
                 fits = fits && number == (int) number;
             }
-            return fits ? NUMBER : spoil(OUT_OF_BOUNDS);
+            trouble = OUT_OF_BOUNDS;
+            return fits ? NUMBER : BAD;
         }
     }
 
@@ -2648,14 +2659,23 @@ public final class HandleHouse {
             open = 0;
             top = 0;
             words.begin();
-            for (int i = 0; i < MOST_BYTES && faultCode == 0; i++) {
-                if (advance() == Words.END) {
-                    break;
+            for (int i = 0; i < MOST_BYTES && faultCode == 0 && advance() != Words.END; i++) {
+                int place = words.place();
+                int result = readsDef() ? readKind(true) : NONE;
+                int target = result != NONE && readsParameters() ? define(result, place) : NONE;
+                int body = target == NONE ? NONE : readExpression();
+                if (body != NONE && readsClose()) {
+                    aimAt(target, passed(AS, body, result, place));
                 }
-                readDefinition();
             }
             words.empty();
             return faultCode;
+        }
+
+        private void aimAt(int target, int h) {
+            if (h != NONE) {
+                store.aimAt(target, h);
+            }
         }
 
         /** The first FAULT that is found counts. */
@@ -2680,8 +2700,9 @@ public final class HandleHouse {
         }
 
         private boolean reads(int word) {
-            if (advance() != word) {
-                failHere(WRONG_WORD);
+            int found = words.step();
+            if (found != word) {
+                failHere(found == Words.BAD ? words.trouble() : WRONG_WORD);
             }
             return faultCode == 0;
         }
@@ -2717,36 +2738,13 @@ public final class HandleHouse {
             return failHere(WRONG_NAME);
         }
 
-        private void readDefinition() {
-            int place = words.place();
+        /** Reads def NAME behind a ( ; the NAME waits where it will be counted. */
+        private boolean readsDef() {
             if (words.word() != Words.OPEN) {
                 failHere(WRONG_WORD);
-                return;
+                return false;
             }
-            if (!opens() || !readsDef()) {
-                return;
-            }
-            long name = words.name();
-            int result = readKind(true);
-            if (result == NONE || !readsParameters()) {
-                return;
-            }
-            int target = define(name, result, place);
-            if (target == NONE) {
-                return;
-            }
-            int body = readExpression();
-            if (body == NONE || !readsClose()) {
-                return;
-            }
-            int passed = passed(body, result, place);
-            if (passed != NONE) {
-                store.aimAt(target, passed);
-            }
-        }
-
-        private boolean readsDef() {
-            if (!reads(Words.NAME)) {
+            if (!opens() || !reads(Words.NAME)) {
                 return false;
             }
             if (words.name() != DEF) {
@@ -2758,8 +2756,10 @@ public final class HandleHouse {
             }
             if (defCount >= MOST_DEFINITIONS || definitionOf(words.name()) != NONE) {
                 failHere(WRONG_NAME);
+                return false;
             }
-            return faultCode == 0;
+            defNames[defCount] = words.name();
+            return true;
         }
 
         private boolean readsParameters() {
@@ -2803,25 +2803,18 @@ public final class HandleHouse {
         }
 
         /** Makes a DEFINITION's HANDLE; answers its TARGET. */
-        private int define(long name, int result, int place) {
+        private int define(int result, int place) {
             int type = scopeType(result, place);
             if (type == NONE) {
                 return NONE;
             }
             row.clear();
-            int empty = made(EMPTY, 0, type, 0, place);
-            if (empty == NONE) {
-                return NONE;
-            }
-            int target = store.newTarget(empty);
-            if (target == NONE || defCount >= MOST_DEFINITIONS) {
+            int empty = forms.build(EMPTY, 0, type, 0, row);
+            int target = empty < 0 ? NONE : store.newTarget(empty);
+            int handle = target == NONE ? NONE : forms.build(TARGET, target, 0, 0, row);
+            if (handle < 0 || defCount >= MOST_DEFINITIONS) {
                 return fail(NOT_MADE, place);
             }
-            int handle = made(TARGET, target, 0, 0, place);
-            if (handle == NONE) {
-                return NONE;
-            }
-            defNames[defCount] = name;
             defHandles[defCount] = handle;
             defCount++;
             return target;
@@ -2874,30 +2867,21 @@ public final class HandleHouse {
             return type == NONE ? fail(NOT_MADE, place) : type;
         }
 
-        /** Makes a HANDLE, the row being its PARTS. */
-        private int made(int form, int a, int b, long c, int place) {
-            int made = forms.build(form, a, b, c, row);
-            return made < 0 ? fail(NOT_MADE, place) : made;
-        }
-
-        private int passed(int part, int kind, int place) {
+        /** A part passed (by AS) or forced (by FORCED) as one of a kind. */
+        private int passed(int form, int part, int kind, int place) {
             int from = handles.resultOf(part);
             if (from == kind) {
                 return part;
             }
-            if (!kinds.allowsResult(from, kind, false)) {
+            if (!kinds.allowsResult(from, kind, form == FORCED)) {
                 return fail(WRONG_KINDS, place);
             }
-            return madeAs(AS, part, kind, place);
-        }
-
-        private int madeAs(int form, int part, int kind, int place) {
             int type = scopeType(kind, place);
             if (type == NONE) {
                 return NONE;
             }
-            row.single(part);
-            return made(form, 0, type, 0, place);
+            int made = forms.build(form, 0, type, 0, row.single(part));
+            return made < 0 ? fail(NOT_MADE, place) : made;
         }
 
         private int stacked(int i) {
@@ -2920,7 +2904,7 @@ public final class HandleHouse {
 
         /** Passes the part at i of the stack, in its stead. */
         private boolean passes(int i, int kind, int place) {
-            int part = passed(stacked(i), kind, place);
+            int part = passed(AS, stacked(i), kind, place);
             if (part == NONE || i < 0 || i >= top || i >= STACK_ROOM) {
                 return false;
             }
@@ -2931,21 +2915,23 @@ public final class HandleHouse {
         /** Makes a HANDLE without PARTS, and applies it to m parts of the stack from base on. */
         private int appliedNew(int form, int a, int b, int base, int m, int place) {
             row.clear();
-            return applied(made(form, a, b, NONE, place), base, m, place);
+            // of these forms just CONSTANT has c, and NONE is NULL there
+            return applied(forms.build(form, a, b, NONE, row), base, m, place);
         }
 
         private int applied(int x, int base, int m, int place) {
-            int type = x == NONE ? NONE : scopeType(handles.resultOf(x), place);
+            if (x < 0) {
+                return fail(NOT_MADE, place);
+            }
+            int type = scopeType(handles.resultOf(x), place);
             if (type == NONE) {
                 return NONE;
             }
-            row.single(x);
-            int made = made(DROP, m, type, 0, place);
-            for (int i = m - 1; i >= 0 && made != NONE; i--) {
-                row.pair(made, stacked(base + i));
-                made = made(FOLD, i, 0, 0, place);
+            int made = forms.build(DROP, m, type, 0, row.single(x));
+            for (int i = m - 1; i >= 0 && made >= 0; i--) {
+                made = forms.build(FOLD, i, 0, 0, row.pair(made, stacked(base + i)));
             }
-            return made;
+            return made < 0 ? fail(NOT_MADE, place) : made;
         }
 
         private int readExpression() {
@@ -2959,7 +2945,7 @@ public final class HandleHouse {
             switch (words.word()) {
                 case Words.NUMBER:
                     row.clear();
-                    return applied(made(CONSTANT, words.numberKind(), 0, words.number(), place), 0, 0, place);
+                    return applied(forms.build(CONSTANT, words.numberKind(), 0, words.number(), row), 0, 0, place);
                 case Words.NAME:
                     return variable(place);
                 case Words.OPEN:
@@ -2976,13 +2962,16 @@ public final class HandleHouse {
             }
             int kind = scopeKinds[i];
             row.clear();
-            int self = made(SELF, kind, 0, 0, place);
-            int type = self == NONE ? NONE : scopeType(kind, place);
+            int self = forms.build(SELF, kind, 0, 0, row);
+            if (self < 0) {
+                return fail(NOT_MADE, place);
+            }
+            int type = scopeType(kind, place);
             if (type == NONE) {
                 return NONE;
             }
-            row.pair(self, i);
-            return made(MOVE, 0, type, 0, place);
+            int made = forms.build(MOVE, 0, type, 0, row.pair(self, i));
+            return made < 0 ? fail(NOT_MADE, place) : made;
         }
 
         private int compound(int place) {
@@ -3046,7 +3035,10 @@ public final class HandleHouse {
             if (!readsParts(KEYWORD_PARTS[keyword]) || !readsClose()) {
                 return NONE;
             }
-            return finished(keyword, told, base, place);
+            if (!hasRightKinds(keyword, told, base)) {
+                return fail(WRONG_KINDS, place);
+            }
+            return keyword == IF ? guarded(base, place) : finished(keyword, told, base, place);
         }
 
         private boolean hasKind(int keyword) {
@@ -3064,19 +3056,14 @@ public final class HandleHouse {
         }
 
         private int finished(int keyword, int told, int base, int place) {
-            if (!hasRightKinds(keyword, told, base)) {
-                return fail(WRONG_KINDS, place);
-            }
             int kind = kindAt(base);
             switch (keyword) {
-                case IF:
-                    return guarded(base, place);
                 case DO:
                     return passes(base, V, place) ? folded(stacked(base + 1), stacked(base), place) : NONE;
                 case PASSING:
-                    return passed(stacked(base), told, place);
+                    return passed(AS, stacked(base), told, place);
                 case FORCING:
-                    return madeAs(FORCED, stacked(base), told, place);
+                    return passed(FORCED, stacked(base), told, place);
                 case NULLS:
                     return appliedNew(CONSTANT, told, 0, base, 0, place);
                 case ROWS:
@@ -3086,27 +3073,27 @@ public final class HandleHouse {
                 case GETS:
                     return passes(base + 1, I, place) ? appliedNew(GET, kind, 0, base, 2, place) : NONE;
                 case SETS:
-                    boolean passed = passes(base + 1, I, place) && passes(base + 2, kinds.elementOf(kind), place);
-                    return passed ? appliedNew(SET, kind, 0, base, 3, place) : NONE;
+                    boolean set = passes(base + 1, I, place) && passes(base + 2, kinds.elementOf(kind), place);
+                    return set ? appliedNew(SET, kind, 0, base, 3, place) : NONE;
                 case ISES:
                     return passes(base, O, place) ? appliedNew(IS, told, 0, base, 1, place) : NONE;
                 case SAMES:
-                    return passesBoth(base, O, place) ? appliedNew(SAME, 0, 0, base, 2, place) : NONE;
+                    boolean same = passes(base, O, place) && passes(base + 1, O, place);
+                    return same ? appliedNew(SAME, 0, 0, base, 2, place) : NONE;
                 case THROWS:
                     return appliedNew(THROW, told, kind, base, 1, place);
                 case CODES:
                     return passes(base, E, place) ? appliedNew(CODE, 0, 0, base, 1, place) : NONE;
                 default:
                     int wide = isLong(kind) || isLong(kindAt(base + 1)) ? J : I;
-                    return passesBoth(base, wide, place) ? appliedNew(OPERATION, told, wide, base, 2, place) : NONE;
+                    boolean both = passes(base, wide, place) && passes(base + 1, wide, place);
+                    return both ? appliedNew(OPERATION, told, wide, base, 2, place) : NONE;
             }
         }
 
         /** What must be of some kind, and isn't passed. */
         private boolean hasRightKinds(int keyword, int told, int base) {
             switch (keyword) {
-                case FORCING:
-                    return kinds.allowsResult(kindAt(base), told, true);
                 case NULLS:
                 case ISES:
                     return kinds.isReference(told);
@@ -3127,10 +3114,6 @@ public final class HandleHouse {
             return kind == J || kind == BOX_J;
         }
 
-        private boolean passesBoth(int base, int kind, int place) {
-            return passes(base, kind, place) && passes(base + 1, kind, place);
-        }
-
         private int guarded(int base, int place) {
             if (!passes(base, Z, place)) {
                 return NONE;
@@ -3146,12 +3129,13 @@ public final class HandleHouse {
             }
             row.pair(stacked(base), stacked(base + 1));
             row.append(stacked(base + 2));
-            return made(GUARD, 0, 0, 0, place);
+            int made = forms.build(GUARD, 0, 0, 0, row);
+            return made < 0 ? fail(NOT_MADE, place) : made;
         }
 
         private int folded(int body, int giver, int place) {
-            row.pair(body, giver);
-            return made(FOLD, 0, 0, 0, place);
+            int made = forms.build(FOLD, 0, 0, 0, row.pair(body, giver));
+            return made < 0 ? fail(NOT_MADE, place) : made;
         }
 
         /** Reads NAME A ) behind the ( of a variable; A waits on the stack, with the NAME. */
@@ -3209,8 +3193,8 @@ public final class HandleHouse {
                 return NONE;
             }
             narrowScope(1);
-            row.pair(stacked(base), stacked(base + 1));
-            return made(CATCH, E, 0, 0, place);
+            int made = forms.build(CATCH, E, 0, 0, row.pair(stacked(base), stacked(base + 1)));
+            return made < 0 ? fail(NOT_MADE, place) : made;
         }
 
         private int loop(int place) {
@@ -3236,7 +3220,8 @@ public final class HandleHouse {
                 return NONE;
             }
             layClauses(base, n);
-            return made(LOOP, 0, type, 0, place);
+            int made = forms.build(LOOP, 0, type, 0, row);
+            return made < 0 ? fail(NOT_MADE, place) : made;
         }
 
         /** Reads a loop's variables; answers how many, 0 behind a FAULT. */
