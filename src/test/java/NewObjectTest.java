@@ -2,18 +2,14 @@
 public final class NewObjectTest {
     public static void main(String[] args) {
         Check check = new Check("NewObjectTest");
-        HandleHouse house = new HandleHouse();
+        HandleHouse house = check.fresh("promise 1");
         check.due("NONE", HandleHouse.NONE, -1);
         check.due("public methods", Check.publicMethods(), 28);
+        check.due("members that are not private", Check.visibleMembers(), 30);
         check.due("told(0)", house.told(0), -1);
-        check.due("told(1)", house.told(1), 0);
-        check.due("told(2)", house.told(2), 0);
-        check.due("told(3)", house.told(3), 0);
-        for (int what = 4; what <= 8; what++) {
+        for (int what = 1; what <= 8; what++) {
             check.due("told(" + what + ")", house.told(what), 0);
         }
-        check.due("told(9)", house.told(9), -1);
-        check.due("told(-1)", house.told(-1), -1);
         check.due("refused()", house.refused(), 0);
         check.due("result()", house.result(), 0);
         check.due("keep()", house.keep(), -1);
@@ -24,14 +20,19 @@ public final class NewObjectTest {
         check.due("constant(0)", house.constant(0), 0);
         check.due("off(0)", house.off(0), false);
         check.due("aim(0, 0)", house.aim(0, 0), false);
+        check.due("target(0)", house.target(0), -1);
+        check.due("run(0, 1)", house.run(0, 1), -1);
+        check.due("find(20, 20, 0, 0, 0)", house.find(20, 20, 0, 0, 0), -1);
+        check.due("its refusal", house.refused(), 1);
         check.due("fault(0)", house.fault(0), 0);
         check.due("fault(1)", house.fault(1), -1);
         check.due("fault(2)", house.fault(2), 0);
         check.due("named(0)", house.named(0), -1);
         check.due("may(20, 20, false)", house.may(20, 20, false), false);
         check.due("the row is empty", house.type(0), 0);
-        check.due("it has no places", house.typeAbout(0, -2), 0);
+        check.due("so the type has no places", house.typeAbout(0, -2), 0);
         check.due("read() of no text", house.read(), 0);
+        check.due("end(0) of no text", house.end(0), 0);
         check.end();
     }
 }
