@@ -296,6 +296,9 @@ public final class CallsTest {
         int ofV = check.make(18, 0, type, 0, bumpOfV, bumpOfV, -1, -1, zero, inc, less, self);
         check.comes("INIT and STEP of V are called", ofV, 3, 3);
         check.due("so often", house.element(row, 0, 0), 4);
+        int tested = check.make(18, 0, type, 0, bumpOfV, bumpOfV, less, self, check.constant(5, 10), inc, -1, -1);
+        check.comes("a clause of V with a TEST has no VARIABLE", tested, 13, 13);
+        check.due("so often", house.element(row, 0, 0), 9);
         int always = check.make(4, 0, type, 0, check.constant(1, 1));
         int divides = check.make(9, 0, 0, 0, check.make(6, 0, 0, 1, check.make(3, 3, 5, 0)), always);
         check.fails("what is thrown ends it", check.make(18, 0, type, 0, check.constant(5, -3), inc, divides, self), 3, 0);

@@ -15,6 +15,7 @@ public final class MakeTest {
         invokingForms();
         simpler();
         sameOnes();
+        notLookedAt();
         order();
         room();
         check.end();
@@ -35,7 +36,10 @@ public final class MakeTest {
         check.due("what -1", house.handle(bound, -1), -1);
         check.due("what at the edge", house.handle(bound, Integer.MAX_VALUE), -1);
         check.due("no such handle", house.handle(2, 0), -1);
-        check.due("handle -1", house.handle(-1, 1), -1);
+        for (int what = 0; what <= 6; what++) {
+            check.due("handle -1, what " + what, house.handle(-1, what), -1);
+            check.due("handle 99, what " + what, house.handle(99, what), -1);
+        }
         check.fresh("promise 8");
         house = check.house;
         plus = check.make(3, 0, 5, 99);
@@ -278,6 +282,14 @@ public final class MakeTest {
         check.refused("FINALLY without its result", 3, 16, 0, 0, 0, plus, code);
         check.refused("FINALLY without E", 3, 16, 0, 0, 0, plus, minus);
         check.refused("FINALLY of V with I", 3, 16, 0, 0, 0, check.make(23, 15, 0, 0), last);
+        int ofJ = check.make(34, 0, check.type(5, 19, 6), 0);
+        check.refused("FINALLY with another place of the result", 3, 16, 0, 0, 0, plus, ofJ);
+        int behind = check.make(34, 0, check.type(5, 19, 5, 6), 0);
+        check.refused("FINALLY with another place behind", 3, 16, 0, 0, 0, plus, behind);
+        int many = check.make(34, 0, check.type(5, 19, 5, 5, 5, 5), 0);
+        check.refused("FINALLY with a place too many", 3, 16, 0, 0, 0, plus, many);
+        int toJ = check.make(34, 0, check.type(6, 19, 5), 0);
+        check.refused("FINALLY with another result", 3, 16, 0, 0, 0, plus, toJ);
 
         check.hasType("SWITCH", check.make(17, 0, 0, 0, plus, minus, plus), 5, 5, 5);
         check.hasType("SWITCH of one", check.make(17, 0, 0, 0, plus), 5, 5, 5);
@@ -384,6 +396,45 @@ public final class MakeTest {
         check.due("HANDLE of another", check.make(1, 3, 4, 5, bound), bound + 4);
         check.due("HANDLE of the first again", check.make(1, 0, 0, 0, plus), bound + 3);
         check.due("how many handles", house.told(7), bound + 5);
+    }
+
+    /** Junk for what a form hasn't of a, b and c is 0 of its handle. */
+    private static void notLookedAt() {
+        HandleHouse house = check.fresh("promise 6, what a form hasn't");
+        house.point();
+        int plus = check.make(3, 0, 5, 0);
+        int less = check.make(3, 11, 5, 0);
+        int code = check.make(33, 0, 0, 0);
+        int size = check.make(21, 15, 0, 0);
+        int last = check.make(4, 1, check.type(0, 5), 0, code);
+        int self = check.make(2, 5, 0, 0);
+        house.target(plus);
+        int own = house.handle(plus, 0);
+        int type = check.type(5, 5, 5, 5);
+        int as = check.type(6, 2, 2);
+        int one = check.type(5, 5);
+        // form, a, b, c: -1 where the form has none; then its parts
+        int[][] rows = {{0, 5, -1, 9}, {1, -1, -1, -1, plus}, {2, 7, -1, -1}, {3, 2, 6, -1}, {4, 1, type, -1, plus},
+            {5, -1, type, -1, plus, 2, 0}, {6, 1, -1, 4, plus}, {7, 1, -1, -1, plus, code}, {8, 1, -1, -1, plus, house.make(0, 5, 0, 3)},
+            {9, -1, -1, -1, code, house.make(20, 17, 0, 0)}, {10, 15, 2, -1, plus}, {11, -1, 3, -1, size}, {12, -1, as, -1, plus},
+            {13, -1, as, -1, plus}, {14, -1, -1, -1, less, plus, plus}, {15, 19, -1, -1, plus, code}, {16, -1, -1, -1, plus, last},
+            {17, -1, -1, -1, plus, plus}, {18, -1, one, -1, -1, plus, less, self}, {19, 5, 19, -1}, {20, 16, -1, -1}, {21, 16, -1, -1},
+            {22, 16, -1, -1}, {23, 16, -1, -1}, {24, 16, -1, -1}, {25, 16, -1, -1}, {26, 16, -1, -1}, {27, -1, own, -1},
+            {28, -1, own, -1}, {29, 0, -1, -1}, {30, 0, -1, -1, plus, plus}, {31, 13, -1, -1}, {32, -1, -1, -1}, {33, -1, -1, -1},
+            {34, -1, type, -1}};
+        for (int[] row : rows) {
+            int[] parts = java.util.Arrays.copyOfRange(row, 4, row.length);
+            int a = row[1] == -1 ? 77 : row[1];
+            int b = row[2] == -1 ? -78 : row[2];
+            int h = check.make(row[0], a, b, row[3] == -1 ? 79 : row[3], parts);
+            String what = "FORM " + row[0];
+            check.due(what, house.handle(h, 1), row[0]);
+            check.due(what + ": a", house.handle(h, 2), row[1] == -1 ? 0 : row[1]);
+            check.due(what + ": b", house.handle(h, 3), row[2] == -1 ? 0 : row[2]);
+            check.due(what + ": c", house.constant(h), row[3] == -1 ? 0 : row[3]);
+            int again = check.make(row[0], Math.max(row[1], 0), Math.max(row[2], 0), Math.max(row[3], 0), parts);
+            check.due(what + ": one handle", again, h);
+        }
     }
 
     private static void order() {

@@ -265,7 +265,8 @@ public final class TextTest {
         HandleHouse house = check.fresh("promise 26");
         check.sound("(def sum j ((n i)) (loop ((i 0) (s 0l)) ((+ i 1) (+ s i)) (< i n) s))");
         check.comes("sum", check.named("sum"), 15, 5);
-        check.sound("(def fib i ((n i)) (loop ((a 0) (b 1) (k 0)) (b (+ a b) (+ k 1)) (< k n) a))");
+        check.sound("(def pow i ((n i)) (loop ((a 0) (b 1) (k 0)) (b (+ a b) (+ k 1)) (< k n) a))");
+        check.comes("each B has the variables that changed ahead of it", check.named("pow"), 32, 6);
         int loop = house.told(7) - 1;
         check.due("the loop", house.handle(loop, 1), 18);
         check.due("its parts", house.handle(loop, 4), 16);
@@ -280,6 +281,8 @@ public final class TextTest {
         check.faulty("(def s i ((x xi)) (loop ((a 1) (b (set x 0 1)) ?", 7, 18);
         check.sound("(def t j () (loop ((a 1l)) ((+ 1 1)) (= 1 2) a))");
         check.comes("B as A's kind", check.named("t"), 2);
+        check.sound("(def v j ((n i)) (let (k 5) (loop ((s 0l) (i 0)) ((+ s i) (+ i 1)) (< i n) (+ s k))))");
+        check.comes("D of another kind than the last B, within another scope", check.named("v"), 11, 4);
         check.sound("(def u i () (loop ((a 1) (a 2)) ((+ a 10) (+ a 20)) (= 1 2) a))");
         check.comes("two with one name: the first", check.named("u"), 11);
     }
