@@ -247,6 +247,15 @@ public final class MembersTest {
         house.method(22, 5, answering(22, 301), true, PUBLIC);
         check.comes("a static one doesn't count", top, 300, third);
         told("an instance of another class", check.run(h, 9, first), -1, 0);
+        int minus = check.make(4, 0, check.type(0, 20), 0, check.make(3, 1, 5, 0));
+        house.method(20, 6, minus, false, PUBLIC);
+        int withPlaces = house.find(20, 22, 6, check.type(5, 5, 5), 1);
+        check.hasType("VIRTUAL with places", withPlaces, 5, 22, 5, 5);
+        check.comes("its values", withPlaces, 7, third, 10, 3);
+        int self = check.make(2, 20, 0, 0);
+        house.method(20, 7, self, false, PUBLIC);
+        check.run(house.find(20, 20, 7, check.type(20), 1), 9, third);
+        check.due("the object itself", house.told(3), 22);
     }
 
     private static void privates() {
@@ -281,6 +290,9 @@ public final class MembersTest {
         told("who asks isn't below", house.find(20, 21, 5, type, 2), -1, 7);
         told("who asks is the class", house.find(21, 21, 5, type, 2) >= 0 ? 1 : 0, 1, 0);
         told("none", house.find(22, 21, 6, type, 2), -1, 6);
+        int minus = check.make(4, 0, check.type(0, 20), 0, check.make(3, 1, 5, 0));
+        house.method(20, 6, minus, false, PUBLIC);
+        check.comes("its values", house.find(22, 20, 6, check.type(5, 5, 5), 2), 7, third, 10, 3);
     }
 
     private static void rights() {

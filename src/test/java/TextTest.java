@@ -283,6 +283,8 @@ public final class TextTest {
         check.comes("B as A's kind", check.named("t"), 2);
         check.sound("(def v j ((n i)) (let (k 5) (loop ((s 0l) (i 0)) ((+ s i) (+ i 1)) (< i n) (+ s k))))");
         check.comes("D of another kind than the last B, within another scope", check.named("v"), 11, 4);
+        check.sound("(def y1 j ((n i)) (loop ((i 0) (s 0l)) ((+ i 1) i) (< i n) s))");
+        check.comes("the second B as its A's kind", check.named("y1"), 4, 4);
         check.sound("(def u i () (loop ((a 1) (a 2)) ((+ a 10) (+ a 20)) (= 1 2) a))");
         check.comes("two with one name: the first", check.named("u"), 11);
     }

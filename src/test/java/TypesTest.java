@@ -41,6 +41,7 @@ public final class TypesTest {
         check.due("(I)I again", check.type(5, 5), 2);
         check.due("()V again", check.type(0), 0);
         check.due("ten places", check.type(5, 1, 2, 3, 4, 5, 6, 7, 8, 9, 10), 6);
+        check.due("ten places again", check.type(5, 1, 2, 3, 4, 5, 6, 7, 8, 9, 10), 6);
         check.due("how many there are", house.told(6), 7);
         house.newClass(7, 0);
         check.due("of a class", check.type(20, 20), 7);
