@@ -161,6 +161,9 @@ public final class CallsTest {
         int plus = check.make(3, 0, 5, 0);
         int fromLeft = check.make(12, 0, check.type(5, 7, 7), 0, plus);
         check.fails("from the left: NULL first", fromLeft, 1, -1, row);
+        int boxI = check.kept(as(12, 5, 5, 7), 30);
+        check.comes("both are passed", fromLeft, 23, boxI, boxB);
+        check.comes("the other way round", fromLeft, 23, boxB, boxI);
         check.fails("from the left: a row first", fromLeft, 2, row, -1);
     }
 
@@ -384,6 +387,13 @@ public final class CallsTest {
         check.due("element 0", house.element(gathered, 0, 0), 7);
         check.due("element 2", house.element(gathered, 2, 0), 9);
         check.comes("GATHER 0", check.make(11, 0, 0, 0, self), 0);
+        int objects = check.kept(check.make(11, 0, 3, 0, check.make(2, 17, 0, 0)), gathered, -1, row);
+        check.due("object 0", house.element(objects, 0, 1), 16);
+        check.due("object 1", house.element(objects, 1, 1), 0);
+        check.due("object 2", house.element(objects, 2, 1), 15);
+        int second = check.make(4, 0, check.type(0, 7), 0, check.make(4, 1, check.type(0, 7), 0, check.make(2, 7, 0, 0)));
+        check.comes("SPREAD of objects", check.make(10, 17, 3, 0, second), 0, objects);
+        check.due("the second one", house.told(3), 0);
         int get = check.make(11, 0, 2, 0, check.make(5, 0, check.type(5, 5, 15), 0, check.make(22, 15, 0, 0), 1, 0));
         check.comes("behind another place", get, 22, 1, 11, 22);
     }

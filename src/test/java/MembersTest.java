@@ -139,6 +139,8 @@ public final class MembersTest {
             told("there is none, way " + way, house.find(20, 20, 3, type, way), -1, 6);
         }
         told("the type isn't looked at", house.find(20, 20, 3, -7, 4), 0, 0);
+        house.field(20, 99, 5, true, 0);
+        told("name 99", house.find(20, 20, 99, -7, 4), 1, 0);
         told("another name", house.find(20, 20, 4, type, 4), -1, 6);
     }
 
