@@ -1,4 +1,7 @@
+import java.io.IOException;
 import java.lang.reflect.Modifier;
+import java.nio.file.Files;
+import java.nio.file.Path;
 
 /** What the tests of the project share: a house, short ways to use it, and a count of wrong answers. */
 final class Check {
@@ -17,6 +20,31 @@ final class Check {
         this.promise = promise;
         house = new HandleHouse();
         return house;
+    }
+
+    /** A new house; the answers that follow are those of a sentence, which the document must have word by word. */
+    HandleHouse sentence(String words) {
+        fresh("'" + words + "'");
+        if (!document().contains(words)) {
+            wrong++;
+            System.out.println(test + ": the document doesn't say: " + words);
+        }
+        return house;
+    }
+
+    /** A new house for more of the same sentence. */
+    HandleHouse again() {
+        house = new HandleHouse();
+        return house;
+    }
+
+    /** The document as one line, each gap one blank. */
+    static String document() {
+        try {
+            return Files.readString(Path.of("../shared/DOC.md")).replaceAll("\\s+", " ");
+        } catch (IOException e) {
+            throw new IllegalStateException("../shared/DOC.md can't be read", e);
+        }
     }
 
     void due(String what, long got, long want) {
@@ -66,8 +94,74 @@ final class Check {
         due(what + ": no handle is made", house.told(7), handles);
     }
 
+    /** Types until there are so many, mostly one call each: INVOKE puts H ahead of a type's places. */
+    void fillTypes(int most) {
+        for (int i = 0; i < 40 && house.told(6) < most; i++) {
+            int type = i < 20 ? type(i) : type(i - 20, 1);
+            for (int h = 0; h < 9 && house.told(6) < most; h++) {
+                type = house.handle(house.make(27, 0, type, 0), 0);
+            }
+        }
+    }
+
+    /**
+     * Handles until there are so many, by few calls: each NUMBER of a text is made, though the
+     * definition has no PARAMETERS.
+     */
+    void fillHandles(int most) {
+        StringBuilder text = new StringBuilder("(def fill i()(fill");
+        for (int n = house.told(7) + 2; n < most; n++) {
+            text.append(' ').append(100 + n);
+        }
+        read(text.append("))").toString());
+    }
+
     int constant(int kind, long c) {
         return make(0, kind, 0, c);
+    }
+
+    int self(int kind) {
+        return make(2, kind, 0, 0);
+    }
+
+    int empty(int result, int... places) {
+        return make(34, 0, type(result, places), 0);
+    }
+
+    /** AS (form 12) or FORCED (13) that passes a value for a PLACE. */
+    int placeAs(int form, int from, int to) {
+        return make(form, 0, type(to, from), 0, self(to));
+    }
+
+    /** AS (form 12) or FORCED (13) that passes a RESULT. */
+    int resultAs(int form, int from, int to) {
+        return make(form, 0, type(to, from), 0, self(from));
+    }
+
+    /** A VALUE: the BOX of a PLAIN number. */
+    int box(int plain, long number) {
+        return kept(resultAs(12, plain, 7), number);
+    }
+
+    /** A VALUE: a new ROW. */
+    int row(int kind, int size) {
+        return kept(make(20, kind, 0, 0), size);
+    }
+
+    /** A VALUE: the OBJECT of H with a handle. */
+    int object(int h) {
+        return kept(make(1, 0, 0, 0, h));
+    }
+
+    /** The handle that makes INSTANCES of a CLASS, by a PUBLIC MAKER without PLACES. */
+    int maker(int kind) {
+        house.method(kind, 0, empty(0, kind), false, 3);
+        return house.find(kind, kind, 0, type(0), 3);
+    }
+
+    /** A VALUE: a new INSTANCE of a CLASS. */
+    int instance(int kind) {
+        return kept(maker(kind));
     }
 
     int run(int h, int fuel, long... values) {
@@ -81,6 +175,12 @@ final class Check {
     void comes(String what, int h, long number, long... values) {
         due(what, run(h, 10000, values), 0);
         due(what + ": result()", house.result(), number);
+    }
+
+    /** A run that comes to an OBJECT of a kind (0 for NULL) with a number. */
+    void comesTo(String what, int kind, long number, int h, long... values) {
+        comes(what, h, number, values);
+        due(what + ": the kind of the object", house.told(3), kind);
     }
 
     /** A run that throws an object of E. */
@@ -131,6 +231,11 @@ final class Check {
         due(text, read(text), fault);
         due(text + ": fault(0)", house.fault(0), fault);
         due(text + ": fault(1)", house.fault(1), place);
+    }
+
+    /** A text must have this fault where the mark @ stands, which isn't fed. */
+    void faultAt(int fault, String marked) {
+        faulty(marked.replace("@", ""), fault, marked.indexOf('@'));
     }
 
     void sound(String text) {
