@@ -2558,7 +2558,6 @@ public final class HandleHouse {
         private static final int MOST_VARIABLES = 3;
         private static final int SCOPE_ROOM = 16;
         private static final int STACK_ROOM = 200;
-        private static final int LOOP_PARTS = 4;
 
         private static final int IF = 0;
         private static final int LET = 1;

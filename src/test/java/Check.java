@@ -5,6 +5,7 @@ import java.nio.file.Path;
 
 /** What the tests of the project share: a house, short ways to use it, and a count of wrong answers. */
 final class Check {
+    private static String document = "";
     final String test;
     HandleHouse house = new HandleHouse();
     private String promise = "";
@@ -40,11 +41,14 @@ final class Check {
 
     /** The document as one line, each gap one blank. */
     static String document() {
-        try {
-            return Files.readString(Path.of("../shared/DOC.md")).replaceAll("\\s+", " ");
-        } catch (IOException e) {
-            throw new IllegalStateException("../shared/DOC.md can't be read", e);
+        if (document.isEmpty()) {
+            try {
+                document = Files.readString(Path.of("../shared/DOC.md")).replaceAll("\\s+", " ");
+            } catch (IOException e) {
+                throw new IllegalStateException("../shared/DOC.md can't be read", e);
+            }
         }
+        return document;
     }
 
     void due(String what, long got, long want) {
@@ -175,6 +179,9 @@ final class Check {
     void comes(String what, int h, long number, long... values) {
         due(what, run(h, 10000, values), 0);
         due(what + ": result()", house.result(), number);
+        if (house.told(2) < 7) {
+            due(what + ": no object", house.told(3), 0);
+        }
     }
 
     /** A run that comes to an OBJECT of a kind (0 for NULL) with a number. */

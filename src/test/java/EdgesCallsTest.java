@@ -4,6 +4,8 @@ public final class EdgesCallsTest {
 
     public static void main(String[] args) {
         tooDeep();
+        depthOfForms();
+        depthOfMembers();
         depthOfOpenCalls();
         outOfFuel();
         nothingMore();
@@ -32,13 +34,11 @@ public final class EdgesCallsTest {
         check.end();
     }
 
-    /** A handle (I)I or (I)J of so many calls, each within the one ahead. */
+    /** A handle (I)I of so many calls, each within the one ahead: a SWITCH without others calls its h. */
     private static int chain(int calls) {
-        int narrow = check.type(5, 5);
-        int wide = check.type(6, 5);
         int h = check.self(5);
         for (int i = 1; i < calls; i++) {
-            h = check.make(13, 0, i % 2 == 1 ? wide : narrow, 0, h);
+            h = check.make(17, 0, 0, 0, h);
         }
         return h;
     }
@@ -47,7 +47,7 @@ public final class EdgesCallsTest {
         HandleHouse house = check.sentence("4. CALLS. To CALL a HANDLE with VALUES for its PLACES: it is TOO DEEP if it is within"
             + " 100 other CALLS that have not ended;");
         int hundred = chain(100);
-        int more = check.make(13, 0, check.type(5, 5), 0, hundred);
+        int more = chain(101);
         check.comes("within 99 others", hundred, 7, 7);
         check.due("steps", house.told(1), 100);
         check.due("within 100 others", check.run(more, 10000, 7), 3);
@@ -55,6 +55,77 @@ public final class EdgesCallsTest {
         check.due("TOO DEEP is asked ahead of FUEL", check.run(more, 100, 7), 3);
         check.due("told", house.told(0), 3);
         check.due("but FUEL that ends ahead of it", check.run(more, 99, 7), 2);
+    }
+
+    private static void depthOfForms() {
+        check.sentence("To CALL a HANDLE with VALUES for its PLACES: it is TOO DEEP if it is within 100 other CALLS");
+        int row = check.row(15, 1);
+        long[][] values = {{0, 5}, {0, 5}, {}, {5}, {5}, {5}, {}, {5}, {5}, {5}, {5}, {5}, {5}, {5}, {5}, {5}, {5}, {5}, {5}, {5}, {5}, {5}, {5}, {5},
+            {5}, {5}, {row}, {5}};
+        int[] within = callers(99);
+        int[] beyond = callers(100);
+        check.due("as many values", values.length, within.length);
+        for (int i = 0; i < within.length; i++) {
+            String what = "FORM " + check.house.handle(within[i], 1) + ", the caller " + i;
+            check.due(what + ": 100 open", check.run(within[i], 10000, values[i]), 0);
+            check.due(what + ": 101 open", check.run(beyond[i], 10000, values[i]), 3);
+        }
+        int invoke = check.make(27, 0, check.type(5, 5), 0);
+        int invokeAs = check.make(28, 0, check.type(6, 5), 0);
+        int most = check.object(chain(99));
+        int more = check.object(chain(100));
+        check.due("INVOKE: 100 open", check.run(invoke, 10000, most, 5), 0);
+        check.due("INVOKE: 101 open", check.run(invoke, 10000, more, 5), 3);
+        check.due("INVOKE AS: 100 open", check.run(invokeAs, 10000, most, 5), 0);
+        check.due("INVOKE AS: 101 open", check.run(invokeAs, 10000, more, 5), 3);
+    }
+
+    /** Handles of all forms that call others, each with so many calls open within its own. */
+    private static int[] callers(int calls) {
+        HandleHouse house = check.house;
+        int h = chain(calls);
+        int shorter = chain(calls - 1);
+        int self = check.self(5);
+        int inc = check.make(6, 1, 0, 1, check.make(3, 0, 5, 0));
+        int divide = check.make(6, 1, 0, 0, check.make(3, 3, 5, 0));
+        int odd = check.make(9, 0, 0, 0, shorter, check.placeAs(13, 5, 1));
+        int even = check.make(9, 0, 0, 0, shorter, check.empty(1, 5));
+        int yes = check.constant(1, 1);
+        int no = check.constant(1, 0);
+        int type = check.type(5, 5);
+        int behind = check.make(4, 0, check.type(0, 19), 0, shorter);
+        int on = house.point();
+        int off = house.point();
+        house.off(off);
+        return new int[] {check.make(4, 0, check.type(0, 6), 0, h), check.make(5, 0, check.type(5, 6, 5), 0, h, 1), check.make(6, 0, 0, 5, h),
+            check.make(7, 0, 0, 0, inc, h), check.make(7, 0, 0, 0, h, inc), check.make(8, 0, 0, 0, check.make(3, 0, 5, 0), h),
+            check.make(8, 0, 0, 0, h, check.constant(5, 5)), check.make(9, 0, 0, 0, h, inc), check.make(9, 0, 0, 0, inc, h),
+            check.make(12, 0, check.type(6, 5), 0, h), check.make(13, 0, check.type(2, 5), 0, h), check.make(14, 0, 0, 0, yes, h, self),
+            check.make(14, 0, 0, 0, no, self, h), check.make(14, 0, 0, 0, odd, self, self), check.make(15, 19, 0, 0, h, check.empty(5, 19)),
+            check.make(15, 19, 0, 0, divide, behind), check.make(16, 0, 0, 0, h, check.empty(5, 19, 5)), check.make(16, 0, 0, 0, self, behind),
+            check.make(17, 0, 0, 0, h), check.make(18, 0, type, 0, h, -1, no, self), check.make(18, 0, type, 0, -1, h, no, self),
+            check.make(18, 0, type, 0, -1, -1, even, self), check.make(18, 0, type, 0, -1, -1, no, h), check.make(29, house.target(h), 0, 0),
+            check.make(30, on, 0, 0, h, self), check.make(30, off, 0, 0, self, h), check.make(10, 15, 1, 0, h),
+            check.make(11, 0, 1, 0, check.make(10, 15, 1, 0, shorter))};
+    }
+
+    private static void depthOfMembers() {
+        HandleHouse house = check.sentence("it is TOO DEEP if it is within 100 other CALLS that have not ended;");
+        house.newClass(7, 0);
+        int ofClass = check.type(0, 20);
+        int instance = check.instance(20);
+        int nothing = check.type(0);
+        for (int k = 0; k <= 1; k++) {
+            house.method(20, 1 + k, check.make(4, 0, ofClass, 0, chain(98 + k)), false, 3);
+            int bound = check.make(6, 0, 0, 5, chain(96 + k));
+            house.newClass(7, 0);
+            int maker = check.make(4, 0, check.type(0, 21 + k), 0, check.make(12, 0, nothing, 0, bound));
+            house.method(21 + k, 0, maker, false, 3);
+            int due = k == 0 ? 0 : 3;
+            check.due("VIRTUAL", check.run(house.find(20, 20, 1 + k, check.type(5, 5), 1), 10000, instance, 5), due);
+            check.due("SPECIAL", check.run(house.find(20, 20, 1 + k, check.type(5, 5), 2), 10000, instance, 5), due);
+            check.due("NEW", check.run(house.find(20, 21 + k, 0, nothing, 3), 10000), due);
+        }
     }
 
     private static void depthOfOpenCalls() {

@@ -152,6 +152,14 @@ public final class EdgesFaultsTest {
         check.again();
         check.faultAt(4, "(def f i()1 \n @");
         check.due("blanks count", check.house.fault(1), 14);
+        check.faultAt(1, "(def abcdefgh i((abcdefgh i))1111111111)@?");
+        check.faultAt(4, "(def abc@");
+        check.faultAt(4, "(def abcd @");
+        check.faultAt(2, "(def @abcdefghijklmnopqrstuvwxyz lllllllll 11111111");
+        check.faultAt(4, "(def g i()1@");
+        check.faultAt(4, "(def h i()111@");
+        check.faultAt(1, "                    @?");
+        check.sound("          ");
         check.sound("");
         check.sound(" \n ");
     }
@@ -170,6 +178,19 @@ public final class EdgesFaultsTest {
         check.faultAt(5, "(def h i()" + repeated("(+(+ 1 1)", 18) + "(+@(+ 1 1)");
         check.sound("(def k i()(+ 1 1))");
         check.comes("the next read() begins anew", check.named("k"), 2);
+        closedOnes();
+    }
+
+    /** What is closed in each sort of brackets doesn't count, and nothing counts less than it is. */
+    private static void closedOnes() {
+        String[] closed = {"(loop((x 1)(y 2))(x y)(= 1 2)x)", "(let(x 1)x)", "(try 1(x)1)", "(f)", "(g 1 1)", "(as i 1)", "(size(null xi))", "(do 1 1)"};
+        for (String one : closed) {
+            check.again();
+            String start = "(def f i()1)(def g i((a i)(b i))1)";
+            String deep = "(def h i((a i)(b i))" + repeated("(+" + one, 16) + repeated("(+ 1 ", 3);
+            check.sound(start + deep + "1" + repeated(")", 19) + ")");
+            check.faultAt(5, deep.replace("(def h", "(def k") + "@(");
+        }
     }
 
     private static void noKind() {

@@ -5,6 +5,7 @@ public final class EdgesFormsTest {
     private static final Check check = new Check("EdgesFormsTest");
 
     public static void main(String[] args) {
+        formNumbers();
         firstPlaces();
         kindsEqual();
         constantNumbers();
@@ -62,6 +63,24 @@ public final class EdgesFormsTest {
 
     private static int mark(int log, int digit) {
         return check.make(6, 0, 0, digit, log);
+    }
+
+    private static void formNumbers() {
+        HandleHouse house = check.sentence("5. FORMS of HANDLES, numbered, with a, b, c and PARTS: h, f, g, in this order. PLACES of x are written (..), its"
+            + " RESULT behind.");
+        int less = check.make(3, 11, 5, 0);
+        int plus = check.make(3, 0, 5, 0);
+        int minus = check.make(3, 1, 5, 0);
+        int guard = check.make(14, 0, 0, 0, less, plus, minus);
+        int[] due = {14, 0, 0, 3, less, plus, minus};
+        for (int i = 0; i < due.length; i++) {
+            check.due("what " + (i + 1), house.handle(guard, i + 1), due[i]);
+        }
+        check.comes("f", guard, 7, 3, 4);
+        check.comes("g", guard, 1, 4, 3);
+        check.refused("another order", 3, 14, 0, 0, 0, plus, less, minus);
+        check.refused("no FORM -1", 1, -1, 0, 0, 0);
+        check.refused("no FORM 35 to make", 1, 35, 0, 0, 0);
     }
 
     private static void firstPlaces() {
@@ -370,6 +389,10 @@ public final class EdgesFormsTest {
         check.refused("PLACES not from there on", 3, 8, 0, 0, 0, h, check.empty(5, 7));
         check.refused("a PLACE too many", 3, 8, 1, 0, 0, h, check.empty(6, 7, 6, 6));
         check.refused("a PLACE where none is", 3, 8, 3, 0, 0, h, check.empty(6, 6));
+        int ten = check.empty(0, 5, 5, 5, 5, 5, 5, 5, 5, 5, 5);
+        int five = check.empty(5, 5, 5, 5, 5, 5);
+        check.hasType("all five behind the fifth of ten", check.make(8, 4, 0, 0, ten, five), 0, 5, 5, 5, 5, 5, 5, 5, 5, 5);
+        check.refused("five behind the sixth of ten", 3, 8, 5, 0, 0, ten, five);
     }
 
     private static void foldOfV() {
@@ -478,6 +501,14 @@ public final class EdgesFormsTest {
         check.due("ELEMENT 1", house.element(row, 1, 0), MIN);
         check.comes("a new one each time", check.make(32, 0, 0, 0), 0, row, check.kept(h, 5, MIN));
         check.due("each counts", house.told(4), 3);
+        int objects = check.kept(check.make(11, 0, 3, 0, check.self(17)), row, -1, check.box(4, 7));
+        elementsAre("of OBJECTS", objects, new long[] {2, 0, 7}, new long[] {16, 0, 12});
+        int size = check.make(4, 0, check.type(0, 5, 5), 0, check.make(21, 16, 0, 0));
+        int ahead = check.make(5, 0, check.type(5, 5, 5, 16), 0, check.make(9, 0, 0, 0, size, check.self(5)), 0, 1, 2);
+        int second = check.make(4, 2, check.type(0, 16), 0, check.make(3, 1, 5, 0));
+        check.comes("values ahead of them", check.make(11, 0, 2, 0, second), 4, 9, 5, 1, 2);
+        check.comes("others ahead of them", check.make(11, 0, 2, 0, second), 40, 90, 50, 1, 2);
+        check.comes("none of them", check.make(11, 0, 0, 0, ahead), 0, 90, 50);
     }
 
     private static void asForms() {
@@ -537,7 +568,8 @@ public final class EdgesFormsTest {
         check.comes("1", h, 7, 3, 4);
         check.comes("0", h, 1, 4, 3);
         check.due("STEPS", house.told(1), 3);
-        check.comes("of no PLACES", check.make(14, 0, 0, 0, check.constant(1, 0), plus, minus), 1, 4, 3);
+        check.comes("of no PLACES", check.make(14, 0, 0, 0, check.constant(1, 0), plus, minus), 20, 50, 30);
+        check.comes("of no PLACES", check.make(14, 0, 0, 0, check.constant(1, 1), plus, minus), 800, 500, 300);
         check.comes("of PLACE 0", check.make(14, 0, 0, 0, check.self(1), check.empty(1, 1), check.self(1)), 0, 1);
         check.refused("two TYPES by a PLACE", 3, 14, 0, 0, 0, less, plus, check.self(5));
         check.refused("two TYPES by the RESULT", 3, 14, 0, 0, 0, less, plus, less);
@@ -587,6 +619,10 @@ public final class EdgesFormsTest {
         int h = check.make(15, 19, 0, 0, divide, code);
         check.comes("with that, and its values", h, 390, 9, 0);
         check.comes("none THROWN", h, 4, 9, 2);
+        int wide = check.make(4, 2, check.type(0, 5), 0, divide);
+        int third = check.make(5, 0, check.type(5, 19, 5, 5, 5), 0, check.self(5), 3);
+        check.comes("all its values", check.make(15, 19, 0, 0, wide, third), 77, 9, 0, 77);
+        check.comes("all its values", check.make(15, 19, 0, 0, wide, third), 78, 9, 0, 78);
         check.fails("f THROWS", check.make(15, 19, 0, 0, divide, check.make(19, 5, 19, 0)), 3, 9, 0);
     }
 
@@ -624,10 +660,20 @@ public final class EdgesFormsTest {
         check.fails("f THROWS itself", throwing, 1, 9, 2);
         house.newClass(19, 0);
         int thrower = check.make(19, 0, 20, 0);
-        int log = log(check.row(15, 1));
+        int logged = check.row(15, 1);
+        int log = log(logged);
         int ofV = check.make(16, 0, 0, 0, thrower, check.make(4, 0, check.type(0, 19), 0, mark(log, 4)));
         check.due("an INSTANCE", check.run(ofV, 99, check.instance(20)), 1);
         check.due("is thrown behind f", house.told(3), 20);
+        check.due("f was called", house.element(logged, 0, 0), 4);
+        int values = check.make(16, 0, 0, 0, check.empty(0, 5, 5), check.make(4, 0, check.type(0, 19), 0, log));
+        check.due("of V", check.run(values, 99, 6, 8), 0);
+        check.due("its first value", house.element(logged, 0, 0), 46);
+        int nulls = check.make(16, 0, 0, 0, check.make(19, 7, 19, 0), check.make(9, 0, 0, 0, check.make(4, 0, check.type(0, 19), 0,
+            check.make(6, 0, 0, row, check.make(6, 1, 0, 0, check.make(23, 17, 0, 0)))), check.constant(7, -1)));
+        check.fails("of O", nulls, 1, -1);
+        check.due("the ZERO is NULL", house.element(row, 0, 1), 0);
+        check.comes("the same as NULL", check.make(25, 17, 0, 0), 1, row, 0, -1, -1);
     }
 
     private static void elementsAre(String what, int row, long[] numbers, long[] kinds) {
@@ -657,6 +703,9 @@ public final class EdgesFormsTest {
         check.refused("another TYPE", 3, 17, 0, 0, 0, plus, minus, check.self(5));
         check.refused("another RESULT", 3, 17, 0, 0, 0, plus, check.make(3, 11, 5, 0));
         check.refused("PLACE 0 of J", 3, 17, 0, 0, 0, check.make(3, 0, 6, 0));
+        check.refused("PLACE 0 of J, PLACE 1 of I", 3, 17, 0, 0, 0, check.empty(5, 6, 5));
+        check.hasType("PLACE 0 of I, PLACE 1 of J", check.make(17, 0, 0, 0, check.empty(5, 5, 6)), 5, 5, 6);
+        check.hasType("PLACE 0 of I alone", check.make(17, 0, 0, 0, check.self(5)), 5, 5);
         check.refused("no PLACE", 3, 17, 0, 0, 0, check.constant(5, 1));
         check.refused("no such one", 1, 17, 0, 0, 0, plus, -1);
         int[] parts = new int[20];

@@ -94,6 +94,12 @@ public final class EdgesHandlesTest {
         int minus = check.make(3, 1, 6, 0);
         int two = check.make(18, 0, type, 0, wide, -1, -1, -1, -1, -1, -1, -1, check.constant(6, 4), -1, no, minus);
         check.comes("in the order of the clauses", two, 5);
+        int tested = check.make(18, 0, type, 0, -1, -1, check.constant(1, 1), -1, wide, -1, no, self);
+        check.comes("a clause with a TEST alone has none", tested, 9);
+        check.again();
+        check.due("HANDLE 0", check.constant(6, 8), 0);
+        check.comes("of HANDLE 0 as INIT", check.make(18, 0, check.type(6), 0, 0, -1, check.constant(1, 0), check.self(6)), 8);
+        check.comes("of HANDLE 0 as STEP", check.make(18, 0, check.type(6), 0, -1, 0, check.constant(1, 0), check.self(6)), 8);
     }
 
     private static void loopPlaces() {
@@ -168,6 +174,7 @@ public final class EdgesHandlesTest {
         int same = check.make(9, 0, 0, 0, check.make(31, 7, 0, 0), check.placeAs(13, 1, 5));
         int ofObjects = check.make(18, 0, type, 0, -1, check.self(7), no, same);
         check.comes("the ZERO of O is NULL", ofObjects, 0);
+        check.comesTo("the ZERO of O is NULL", 0, 0, check.make(18, 0, check.type(7), 0, -1, check.self(7), no, check.self(7)));
         int divide = check.make(6, 1, 0, 0, check.make(3, 3, 5, 0));
         int bad = check.make(18, 0, type, 0, check.make(6, 0, 0, 1, divide), -1, no, -1, mark(log, 9), -1, -1, -1);
         check.fails("an INIT that THROWS", bad, 3);
@@ -519,6 +526,8 @@ public final class EdgesHandlesTest {
         check.refused("COLLECT by a SELF at 2", 2, 7, 2, 0, 0, less, ofI);
         check.due("FOLD by a SELF isn't simpler", house.handle(check.make(8, 0, 0, 0, less, ofI), 1), 8);
         check.due("MOVE to another order isn't", house.handle(check.make(5, 0, own, 0, less, 1, 0), 1), 5);
+        check.due("MOVE of the first alone isn't", house.handle(check.make(5, 0, own, 0, less, 1, 1), 1), 5);
+        check.due("MOVE of the last alone isn't", house.handle(check.make(5, 0, own, 0, less, 0, 0), 1), 5);
         check.due("MOVE to another TYPE isn't", house.handle(check.make(5, 0, check.type(1, 5, 5, 5), 0, less, 0, 1), 1), 5);
     }
 
@@ -768,16 +777,39 @@ public final class EdgesHandlesTest {
         check.due("b", house.handle(same, 3), 0);
         check.due("c", house.constant(same), 0);
         check.due("the same one", check.make(32, 0, 0, 0), same);
-        int self = check.make(2, 5, 99, 99);
-        check.due("a of SELF", house.handle(self, 2), 5);
-        check.due("b of SELF", house.handle(self, 3), 0);
-        check.due("c of SELF", house.constant(self), 0);
-        int bound = check.make(6, 0, 99, 7, self);
-        check.due("b of BIND", house.handle(bound, 3), 0);
-        check.due("c of BIND", house.constant(bound), 7);
-        int empty = check.make(34, 99, house.handle(self, 0), 99);
-        check.due("a of EMPTY", house.handle(empty, 2), 0);
-        check.due("c of EMPTY", house.constant(empty), 0);
+        house.point();
+        int plus = check.make(3, 0, 5, 0);
+        house.target(plus);
+        int less = check.make(3, 11, 5, 0);
+        int code = check.make(33, 0, 0, 0);
+        int own = house.handle(plus, 0);
+        int wide = check.type(5, 5, 5, 5);
+        int as = check.type(6, 2, 2);
+        int one = check.constant(5, 1);
+        int step = check.self(5);
+        // FORM, a, b, c: -1 where the FORM has none; then its PARTS
+        int[][] rows = {{0, 5, -1, 9}, {1, -1, -1, -1, plus}, {2, 7, -1, -1}, {3, 2, 6, -1}, {4, 1, wide, -1, plus}, {5, -1, wide, -1, plus, 2, 0},
+            {6, 1, -1, 4, plus}, {7, 1, -1, -1, plus, code}, {8, 1, -1, -1, plus, one}, {9, -1, -1, -1, less, check.empty(5, 1)}, {10, 15, 2, -1, plus},
+            {11, -1, 3, -1, check.self(15)}, {12, -1, as, -1, plus}, {13, -1, as, -1, plus}, {14, -1, -1, -1, less, plus, plus},
+            {15, 19, -1, -1, plus, code}, {16, -1, -1, -1, plus, check.empty(5, 19, 5)}, {17, -1, -1, -1, plus, plus},
+            {18, -1, check.type(5, 5), -1, -1, plus, less, step}, {19, 5, 19, -1}, {20, 16, -1, -1}, {21, 16, -1, -1}, {22, 16, -1, -1},
+            {23, 16, -1, -1}, {24, 16, -1, -1}, {25, 16, -1, -1}, {26, 16, -1, -1}, {27, -1, own, -1}, {28, -1, own, -1}, {29, 0, -1, -1},
+            {30, 0, -1, -1, plus, plus}, {31, 13, -1, -1}, {32, -1, -1, -1}, {33, -1, -1, -1}, {34, -1, wide, -1}};
+        for (int[] row : rows) {
+            notLookedAt(row);
+        }
+    }
+
+    private static void notLookedAt(int[] row) {
+        HandleHouse house = check.house;
+        int[] parts = java.util.Arrays.copyOfRange(row, 4, row.length);
+        int h = check.make(row[0], row[1] < 0 ? 77 : row[1], row[2] < 0 ? -78 : row[2], row[3] < 0 ? 79 : row[3], parts);
+        String what = "FORM " + row[0];
+        check.due(what, house.handle(h, 1), row[0]);
+        check.due(what + ": a", house.handle(h, 2), Math.max(row[1], 0));
+        check.due(what + ": b", house.handle(h, 3), Math.max(row[2], 0));
+        check.due(what + ": c", house.constant(h), Math.max(row[3], 0));
+        check.due(what + ": one HANDLE", check.make(row[0], Math.max(row[1], 0), Math.max(row[2], 0), Math.max(row[3], 0), parts), h);
     }
 
     private static void handleQuestions() {

@@ -8,12 +8,12 @@ public final class EdgesKindsTest {
 
     public static void main(String[] args) {
         resultsAlone();
-        plainBounds("PLAIN: 1 Z (0, 1),", 1, 0, 1);
-        plainBounds("2 B (-128 .. 127),", 2, -128, 127);
-        plainBounds("3 S (-32,768 .. 32,767),", 3, -32768, 32767);
-        plainBounds("4 C (0 .. 65,535),", 4, 0, 65535);
-        plainBounds("5 I (an int),", 5, Integer.MIN_VALUE, Integer.MAX_VALUE);
-        plainBounds("6 J (a long).", 6, MIN, MAX);
+        plainBounds(check.sentence("PLAIN: 1 Z (0, 1),"), 1, 0, 1);
+        plainBounds(check.sentence("2 B (-128 .. 127),"), 2, -128, 127);
+        plainBounds(check.sentence("3 S (-32,768 .. 32,767),"), 3, -32768, 32767);
+        plainBounds(check.sentence("4 C (0 .. 65,535),"), 4, 0, 65535);
+        plainBounds(check.sentence("5 I (an int),"), 5, Integer.MIN_VALUE, Integer.MAX_VALUE);
+        plainBounds(check.sentence("6 J (a long)."), 6, MIN, MAX);
         boxKinds();
         rowKinds();
         handleAndErrorKinds();
@@ -64,8 +64,7 @@ public final class EdgesKindsTest {
         check.due("nothing to keep", house.keep(), -1);
     }
 
-    private static void plainBounds(String words, int kind, long low, long high) {
-        HandleHouse house = check.sentence(words);
+    private static void plainBounds(HandleHouse house, int kind, long low, long high) {
         int self = check.self(kind);
         long[] inside = {low, low + 1, 0, 1, high - 1, high};
         for (long n : inside) {
@@ -308,6 +307,9 @@ public final class EdgesKindsTest {
         check.due("one PLACE fewer", check.type(0, 5), 3);
         check.due("one PLACE more", check.type(0, 5, 6, 5), 4);
         check.due("of a handle", house.handle(check.empty(0, 5, 6), 0), 0);
+        check.due("ten PLACES", check.type(5, 1, 2, 3, 4, 5, 6, 7, 8, 9, 10), 5);
+        check.due("ten PLACES again", check.type(5, 1, 2, 3, 4, 5, 6, 7, 8, 9, 10), 5);
+        check.due("but for the last", check.type(5, 1, 2, 3, 4, 5, 6, 7, 8, 9, 11), 6);
         check.fillTypes(300);
         check.due("also when there are 300", check.type(0, 5, 6, 5), 4);
     }

@@ -21,6 +21,7 @@ public final class EdgesMembersTest {
         publicReach();
         findOrder();
         notReached();
+        refusalsOfFinding();
         staticMethods();
         virtualFound();
         virtualNull();
@@ -298,6 +299,26 @@ public final class EdgesMembersTest {
         refused("6 ahead of it", house.find(22, 20, 2, 0, 4), 6);
     }
 
+    private static void refusalsOfFinding() {
+        HandleHouse house = check.sentence("6, 7 of finding;");
+        house.newClass(7, 0);
+        house.newClass(7, 1);
+        house.field(20, 1, 5, true, PRIVATE);
+        refused("1 ahead of 2", house.find(19, 20, 100, 0, 4), 1);
+        refused("2 ahead of 6", house.find(20, 20, 100, 0, 4), 2);
+        refused("6", house.find(20, 20, 2, 0, 4), 6);
+        refused("6 of a CLASS that isn't BELOW", house.find(20, 21, 1, 0, 4), 6);
+        refused("7", house.find(21, 20, 1, 0, 4), 7);
+        check.fillTypes(300);
+        refused("6 ahead of 4", house.find(20, 20, 2, 0, 7), 6);
+        refused("7 ahead of 4", house.find(21, 20, 1, 0, 7), 7);
+        refused("4", house.find(20, 20, 1, 0, 7), 4);
+        check.fillHandles(500);
+        refused("6 ahead of 5", house.find(20, 20, 2, 0, 4), 6);
+        refused("7 ahead of 5", house.find(21, 20, 1, 0, 4), 7);
+        refused("5", house.find(20, 20, 1, 0, 4), 5);
+    }
+
     private static void staticMethods() {
         HandleHouse house = check.sentence("WAYS: 0 a STATIC METHOD of that TYPE: its HANDLE.");
         house.newClass(7, 0);
@@ -328,6 +349,14 @@ public final class EdgesMembersTest {
         check.due("b the CLASS", house.handle(h, 3), 21);
         check.due("another for the PARENT", house.handle(house.find(20, 20, 4, type, 1), 3), 20);
         check.due("one for all who ask", house.find(21, 21, 4, type, 1), h);
+        int minus = check.make(4, 0, check.type(0, 20), 0, check.make(3, 1, 5, 0));
+        house.method(20, 6, minus, false, PUBLIC);
+        int called = house.find(20, 21, 6, check.type(5, 5, 5), 1);
+        int below = check.instance(21);
+        check.comes("its values", called, 7, below, 10, 3);
+        check.comes("other values", called, 60, below, 100, 40);
+        house.method(20, 7, check.self(20), false, PUBLIC);
+        check.comesTo("the OBJECT itself", 21, 0, house.find(20, 21, 7, check.type(20), 1), below);
         house.method(20, 5, check.constant(5, 1), true, PUBLIC);
         refused("a STATIC one", house.find(20, 20, 5, check.type(5), 1), 6);
         house.method(20, 0, check.empty(0, 20), false, PUBLIC);
@@ -388,10 +417,21 @@ public final class EdgesMembersTest {
         check.comes("the OBJECT's CLASS", h, 9, objects[23]);
         house.method(21, 4, answering(21, 11), false, PUBLIC);
         check.comes("told later where it was found", h, 2, objects[21]);
+        house.method(23, 8, answering(23, 31), false, PUBLIC);
+        house.method(20, 8, answering(20, 32), false, PUBLIC);
+        house.method(22, 8, answering(22, 33), false, PUBLIC);
+        check.comes("told ahead of the one that was found", house.find(20, 20, 8, check.type(5), 1), 31, objects[23]);
+        check.comes("of the CLASS between", house.find(20, 20, 8, check.type(5), 1), 33, objects[22]);
         int top = house.find(20, 20, 4, check.type(5), 1);
         check.comes("found above", top, 1, objects[20]);
         check.comes("found above, called below", top, 2, objects[21]);
         check.due("STEPS", house.told(1), 3);
+        house = check.again();
+        house.newClass(7, 0);
+        house.newClass(20, 0);
+        check.due("member 0 below", house.method(21, 4, answering(21, 5), false, PUBLIC), 0);
+        house.method(20, 4, answering(20, 6), false, PUBLIC);
+        check.comes("member 0", house.find(20, 20, 4, check.type(5), 1), 5, check.instance(21));
     }
 
     private static void special() {
@@ -416,6 +456,12 @@ public final class EdgesMembersTest {
         check.due("nothing is called", house.told(1), 1);
         check.comes("the found one's HANDLE, not that of the OBJECT's CLASS", h, 1, check.instance(22));
         refused("6 ahead of 7", house.find(23, 20, 5, type, 2), 6);
+        int minus = check.make(4, 0, check.type(0, 20), 0, check.make(3, 1, 5, 0));
+        house.method(20, 8, minus, false, PUBLIC);
+        int called = house.find(22, 20, 8, check.type(5, 5, 5), 2);
+        check.hasType("its PLACES", called, 5, 22, 5, 5);
+        check.comes("its values", called, 7, check.instance(22), 10, 3);
+        check.comes("other values", called, 60, check.instance(22), 100, 40);
         house.method(20, 6, answering(20, 9), false, PRIVATE);
         refused("not REACHED", house.find(22, 20, 6, type, 2), 7);
         house.method(20, 0, check.empty(0, 20), false, PUBLIC);

@@ -1,4 +1,9 @@
-/** Sentences of 'What it is', 'The public face' and of promises 1 and 2; and that each sentence of the document has a test. */
+import java.lang.reflect.Method;
+import java.lang.reflect.Modifier;
+import java.util.regex.Matcher;
+import java.util.regex.Pattern;
+
+/** Sentences of 'What it is', 'The public face' and of promises 1 and 2. */
 public final class EdgesPromisesTest {
     private static final Check check = new Check("EdgesPromisesTest");
 
@@ -26,6 +31,29 @@ public final class EdgesPromisesTest {
         check.due("NONE", HandleHouse.NONE, -1);
         check.due("public methods", Check.publicMethods(), 28);
         check.due("visible members: NONE, the constructor, the methods", Check.visibleMembers(), 30);
+        check.due("the class is public and final", HandleHouse.class.getModifiers(), Modifier.PUBLIC | Modifier.FINAL);
+        String face = Check.document().replaceAll("^.*```java (.*?)```.*$", "$1");
+        Matcher told = Pattern.compile("public (\\w+) (\\w+)\\(([^)]*)\\);").matcher(face);
+        int methods = 0;
+        while (told.find()) {
+            methods++;
+            check.due("as told: " + told.group(), hasMethod(told.group(1), told.group(2), told.group(3)), true);
+        }
+        check.due("methods told", methods, 28);
+    }
+
+    private static boolean hasMethod(String result, String name, String parameters) {
+        for (Method method : HandleHouse.class.getDeclaredMethods()) {
+            StringBuilder types = new StringBuilder();
+            for (Class<?> type : method.getParameterTypes()) {
+                types.append(types.length() == 0 ? "" : ", ").append(type);
+            }
+            boolean same = method.getName().equals(name) && method.getReturnType().toString().equals(result);
+            if (same && types.toString().equals(parameters.replaceAll(" \\w+(,|$)", "$1")) && method.getModifiers() == Modifier.PUBLIC) {
+                return true;
+            }
+        }
+        return false;
     }
 
     private static void equalHandles() {

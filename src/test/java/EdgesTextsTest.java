@@ -354,6 +354,11 @@ public final class EdgesTextsTest {
         check.sound("(def f i()1)(def g i((a i))(f))");
         forms("no PLACES: DROP alone", 0, 34, 29, 0, 34, 29, 4);
         shape("DROP at 0", 5, 4, 0, check.house.handle(5, 3), 1);
+        check.again();
+        check.due("HANDLE 0", check.make(3, 0, 5, 0), 0);
+        check.comes("of HANDLE 0", def("f", "i()(+ 1 2)"), 3);
+        check.again();
+        check.sound("(def f i()1)(def g i((a i))(f))");
         check.sound("(def h i()(f))");
         check.due("no SCOPE, no PLACES: x itself, EMPTY is there", check.house.told(7), 7);
     }
