@@ -116,7 +116,6 @@ public final class HandleHouse {
     private static final int WAY_NEW = 3;
     private static final int WAY_GET = 4;
     private static final int WAY_SET = 5;
-    private static final int WAY_SWAP = 6;
     private static final int WAY_TRY = 7;
     private static final int WAY_ADD = 8;
 

@@ -156,7 +156,9 @@ public final class EdgesFaultsTest {
         check.faultAt(4, "(def abc@");
         check.faultAt(4, "(def abcd @");
         check.faultAt(2, "(def @abcdefghijklmnopqrstuvwxyz lllllllll 11111111");
+        check.faultAt(1, "@?11111111111111111111");
         check.faultAt(4, "(def g i()1@");
+        check.faultAt(1, "@?llllllllllllllllllll");
         check.faultAt(4, "(def h i()111@");
         check.faultAt(1, "                    @?");
         check.sound("          ");

@@ -1,3 +1,6 @@
+import java.lang.reflect.Field;
+import java.lang.reflect.Method;
+import java.lang.reflect.Modifier;
 import java.nio.file.Files;
 import java.nio.file.Path;
 import java.util.regex.Matcher;
@@ -23,6 +26,8 @@ public final class LanguageTest {
             count(code, "\\bclass\\b"), 1 + count(code, "    private static final class\\b"));
         check.due("rule 11: some twelve classes", count(code, "\\bclass\\b") <= 13, true);
         shortMethods(code);
+        namesAndFields();
+        library(code);
         check.end();
     }
 
@@ -33,6 +38,48 @@ public final class LanguageTest {
             count++;
         }
         return count;
+    }
+
+    private static void namesAndFields() {
+        check.due("rule 11: some twenty fields", ownFields(HandleHouse.class) <= 22, true);
+        for (Class<?> inside : HandleHouse.class.getDeclaredClasses()) {
+            check.due("rule 11: some twenty fields of " + inside.getSimpleName(), ownFields(inside) <= 22, true);
+            for (Method method : inside.getDeclaredMethods()) {
+                check.due("rule 1: the name of " + method, isPublicName(method.getName()), false);
+            }
+        }
+        for (Method method : HandleHouse.class.getDeclaredMethods()) {
+            boolean isPrivate = Modifier.isPrivate(method.getModifiers());
+            check.due("rule 1: the name of " + method, isPrivate && isPublicName(method.getName()), false);
+        }
+    }
+
+    private static int ownFields(Class<?> owner) {
+        int count = 0;
+        for (Field field : owner.getDeclaredFields()) {
+            count += Modifier.isStatic(field.getModifiers()) ? 0 : 1;
+        }
+        return count;
+    }
+
+    private static boolean isPublicName(String name) {
+        for (Method method : HandleHouse.class.getMethods()) {
+            if (method.getDeclaringClass() == HandleHouse.class && method.getName().equals(name)) {
+                return true;
+            }
+        }
+        return false;
+    }
+
+    private static void library(String code) {
+        Matcher matcher = Pattern.compile("\\b([A-Z][a-z]\\w*)\\.(\\w+)").matcher(code);
+        String used = " Math.max Math.min System.arraycopy ";
+        while (matcher.find()) {
+            boolean own = count(code, "class " + matcher.group(1) + "\\b") == 1;
+            check.due("rule 4: " + matcher.group(), own || used.contains(" " + matcher.group() + " "), true);
+        }
+        check.due("rule 3: nothing is made but its own classes and arrays of numbers", count(code, "\\bnew (?!Kinds|Types|Handles|Store|Forms|Members"
+            + "|Machine|Words|Texts|Row|Thing|int|long|boolean)"), 0);
     }
 
     private static void shortMethods(String code) {
