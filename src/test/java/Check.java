@@ -98,12 +98,19 @@ final class Check {
         due(what + ": no handle is made", house.told(7), handles);
     }
 
-    /** Types until there are so many, mostly one call each: INVOKE puts H ahead of a type's places. */
+    /**
+     * Types until there are so many, mostly one call each, as an object is used for 512 calls: INVOKE
+     * puts H ahead of a type's places, and what it makes has the next number.
+     */
     void fillTypes(int most) {
-        for (int i = 0; i < 40 && house.told(6) < most; i++) {
+        int next = house.told(6);
+        for (int i = 0; i < 40 && next < most; i++) {
             int type = i < 20 ? type(i) : type(i - 20, 1);
-            for (int h = 0; h < 9 && house.told(6) < most; h++) {
-                type = house.handle(house.make(27, 0, type, 0), 0);
+            next = Math.max(next, type + 1);
+            for (int h = 0; h < 9 && next < most; h++) {
+                house.make(27, 0, type, 0);
+                type = next;
+                next++;
             }
         }
     }

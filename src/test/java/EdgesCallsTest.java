@@ -34,20 +34,22 @@ public final class EdgesCallsTest {
         check.end();
     }
 
-    /** A handle (I)I of so many calls, each within the one ahead: a SWITCH without others calls its h. */
-    private static int chain(int calls) {
-        int h = check.self(5);
-        for (int i = 1; i < calls; i++) {
-            h = check.make(17, 0, 0, 0, h);
+    /** Handles (I)I, by how many calls each is, one within the other: a SWITCH without others calls its h. */
+    private static int[] chains(int most) {
+        int[] chains = new int[most + 1];
+        chains[1] = check.self(5);
+        for (int calls = 2; calls <= most; calls++) {
+            chains[calls] = check.make(17, 0, 0, 0, chains[calls - 1]);
         }
-        return h;
+        return chains;
     }
 
     private static void tooDeep() {
         HandleHouse house = check.sentence("4. CALLS. To CALL a HANDLE with VALUES for its PLACES: it is TOO DEEP if it is within"
             + " 100 other CALLS that have not ended;");
-        int hundred = chain(100);
-        int more = chain(101);
+        int[] chains = chains(101);
+        int hundred = chains[100];
+        int more = chains[101];
         check.comes("within 99 others", hundred, 7, 7);
         check.due("steps", house.told(1), 100);
         check.due("within 100 others", check.run(more, 10000, 7), 3);
@@ -59,65 +61,78 @@ public final class EdgesCallsTest {
 
     private static void depthOfForms() {
         check.sentence("To CALL a HANDLE with VALUES for its PLACES: it is TOO DEEP if it is within 100 other CALLS");
-        int row = check.row(15, 1);
-        long[][] values = {{0, 5}, {0, 5}, {}, {5}, {5}, {5}, {}, {5}, {5}, {5}, {5}, {5}, {5}, {5}, {5}, {5}, {5}, {5}, {5}, {5}, {5}, {5}, {5}, {5},
-            {5}, {5}, {row}, {5}};
-        int[] within = callers(99);
-        int[] beyond = callers(100);
-        check.due("as many values", values.length, within.length);
-        for (int i = 0; i < within.length; i++) {
-            String what = "FORM " + check.house.handle(within[i], 1) + ", the caller " + i;
-            check.due(what + ": 100 open", check.run(within[i], 10000, values[i]), 0);
-            check.due(what + ": 101 open", check.run(beyond[i], 10000, values[i]), 3);
+        int[] chains = {};
+        for (int i = 0; i < CALLERS; i++) {
+            if (i % 10 == 0) {
+                check.again();
+                check.row(15, 1);
+                chains = chains(100);
+            }
+            int within = caller(i, chains[99], chains[98]);
+            int beyond = caller(i, chains[100], chains[99]);
+            int places = check.house.typeAbout(check.house.handle(within, 0), -2);
+            // the one ROW is VALUE 0; a number is 0, too
+            long[] values = new long[places];
+            String what = "FORM " + check.house.handle(within, 1) + ", caller " + i;
+            check.due(what + ": 100 open", check.run(within, 10000, values), 0);
+            check.due(what + ": 101 open", check.run(beyond, 10000, values), 3);
         }
-        int invoke = check.make(27, 0, check.type(5, 5), 0);
-        int invokeAs = check.make(28, 0, check.type(6, 5), 0);
-        int most = check.object(chain(99));
-        int more = check.object(chain(100));
-        check.due("INVOKE: 100 open", check.run(invoke, 10000, most, 5), 0);
-        check.due("INVOKE: 101 open", check.run(invoke, 10000, more, 5), 3);
-        check.due("INVOKE AS: 100 open", check.run(invokeAs, 10000, most, 5), 0);
-        check.due("INVOKE AS: 101 open", check.run(invokeAs, 10000, more, 5), 3);
     }
 
-    /** Handles of all forms that call others, each with so many calls open within its own. */
-    private static int[] callers(int calls) {
+    private static final int CALLERS = 30;
+
+    /** A handle of each form that calls others: h in each of its roles, or one shorter where another call is between. */
+    private static int caller(int i, int h, int shorter) {
         HandleHouse house = check.house;
-        int h = chain(calls);
-        int shorter = chain(calls - 1);
         int self = check.self(5);
-        int inc = check.make(6, 1, 0, 1, check.make(3, 0, 5, 0));
-        int divide = check.make(6, 1, 0, 0, check.make(3, 3, 5, 0));
-        int odd = check.make(9, 0, 0, 0, shorter, check.placeAs(13, 5, 1));
-        int even = check.make(9, 0, 0, 0, shorter, check.empty(1, 5));
-        int yes = check.constant(1, 1);
-        int no = check.constant(1, 0);
-        int type = check.type(5, 5);
-        int behind = check.make(4, 0, check.type(0, 19), 0, shorter);
-        int on = house.point();
-        int off = house.point();
-        house.off(off);
-        return new int[] {check.make(4, 0, check.type(0, 6), 0, h), check.make(5, 0, check.type(5, 6, 5), 0, h, 1), check.make(6, 0, 0, 5, h),
-            check.make(7, 0, 0, 0, inc, h), check.make(7, 0, 0, 0, h, inc), check.make(8, 0, 0, 0, check.make(3, 0, 5, 0), h),
-            check.make(8, 0, 0, 0, h, check.constant(5, 5)), check.make(9, 0, 0, 0, h, inc), check.make(9, 0, 0, 0, inc, h),
-            check.make(12, 0, check.type(6, 5), 0, h), check.make(13, 0, check.type(2, 5), 0, h), check.make(14, 0, 0, 0, yes, h, self),
-            check.make(14, 0, 0, 0, no, self, h), check.make(14, 0, 0, 0, odd, self, self), check.make(15, 19, 0, 0, h, check.empty(5, 19)),
-            check.make(15, 19, 0, 0, divide, behind), check.make(16, 0, 0, 0, h, check.empty(5, 19, 5)), check.make(16, 0, 0, 0, self, behind),
-            check.make(17, 0, 0, 0, h), check.make(18, 0, type, 0, h, -1, no, self), check.make(18, 0, type, 0, -1, h, no, self),
-            check.make(18, 0, type, 0, -1, -1, even, self), check.make(18, 0, type, 0, -1, -1, no, h), check.make(29, house.target(h), 0, 0),
-            check.make(30, on, 0, 0, h, self), check.make(30, off, 0, 0, self, h), check.make(10, 15, 1, 0, h),
-            check.make(11, 0, 1, 0, check.make(10, 15, 1, 0, shorter))};
+        switch (i) {
+            case 0: return check.make(4, 0, check.type(0, 6), 0, h);
+            case 1: return check.make(5, 0, check.type(5, 6, 5), 0, h, 1);
+            case 2: return check.make(6, 0, 0, 5, h);
+            case 3: return check.make(7, 0, 0, 0, check.empty(5, 5), h);
+            case 4: return check.make(7, 0, 0, 0, h, check.empty(5, 5));
+            case 5: return check.make(8, 0, 0, 0, check.make(3, 0, 5, 0), h);
+            case 6: return check.make(8, 0, 0, 0, h, check.constant(5, 5));
+            case 7: return check.make(9, 0, 0, 0, h, check.empty(6, 5));
+            case 8: return check.make(9, 0, 0, 0, check.empty(5, 5), h);
+            case 9: return check.make(10, 15, 1, 0, h);
+            case 10: return check.make(11, 0, 1, 0, check.make(10, 15, 1, 0, shorter));
+            case 11: return check.make(12, 0, check.type(6, 5), 0, h);
+            case 12: return check.make(13, 0, check.type(2, 5), 0, h);
+            case 13: return check.make(14, 0, 0, 0, check.constant(1, 1), h, self);
+            case 14: return check.make(14, 0, 0, 0, check.constant(1, 0), self, h);
+            case 15: return check.make(14, 0, 0, 0, check.make(9, 0, 0, 0, shorter, check.empty(1, 5)), self, self);
+            case 16: return check.make(15, 19, 0, 0, h, check.empty(5, 19));
+            case 17: return check.make(15, 19, 0, 0, check.make(6, 1, 0, 0, check.make(3, 3, 5, 0)), check.make(4, 0, check.type(0, 19), 0, shorter));
+            case 18: return check.make(16, 0, 0, 0, h, check.empty(5, 19, 5));
+            case 19: return check.make(16, 0, 0, 0, self, check.make(4, 0, check.type(0, 19), 0, shorter));
+            case 20: return check.make(17, 0, 0, 0, h);
+            case 21: return check.make(18, 0, check.type(5, 5), 0, h, -1, check.constant(1, 0), self);
+            case 22: return check.make(18, 0, check.type(5, 5), 0, -1, h, check.constant(1, 0), self);
+            case 23: return check.make(18, 0, check.type(5, 5), 0, -1, -1, check.make(9, 0, 0, 0, shorter, check.empty(1, 5)), self);
+            case 24: return check.make(18, 0, check.type(5, 5), 0, -1, -1, check.constant(1, 0), h);
+            case 25: return check.make(29, house.target(h), 0, 0);
+            case 26: return check.make(30, house.point(), 0, 0, h, self);
+            case 27:
+                int off = house.point();
+                house.off(off);
+                return check.make(30, off, 0, 0, self, h);
+            default:
+                int invoke = check.make(i == 28 ? 27 : 28, 0, check.type(i == 28 ? 5 : 6, 5), 0);
+                return check.make(6, 0, 0, check.object(shorter), invoke);
+        }
     }
 
     private static void depthOfMembers() {
         HandleHouse house = check.sentence("it is TOO DEEP if it is within 100 other CALLS that have not ended;");
         house.newClass(7, 0);
+        int[] chains = chains(99);
         int ofClass = check.type(0, 20);
         int instance = check.instance(20);
         int nothing = check.type(0);
         for (int k = 0; k <= 1; k++) {
-            house.method(20, 1 + k, check.make(4, 0, ofClass, 0, chain(98 + k)), false, 3);
-            int bound = check.make(6, 0, 0, 5, chain(96 + k));
+            house.method(20, 1 + k, check.make(4, 0, ofClass, 0, chains[98 + k]), false, 3);
+            int bound = check.make(6, 0, 0, 5, chains[96 + k]);
             house.newClass(7, 0);
             int maker = check.make(4, 0, check.type(0, 21 + k), 0, check.make(12, 0, nothing, 0, bound));
             house.method(21 + k, 0, maker, false, 3);
@@ -130,14 +145,15 @@ public final class EdgesCallsTest {
 
     private static void depthOfOpenCalls() {
         HandleHouse house = check.sentence("CALLS that have not ended;");
-        int sum = check.make(8, 0, 0, 0, check.make(9, 0, 0, 0, check.make(3, 0, 5, 0), chain(91)), chain(91));
+        int long91 = chains(91)[91];
+        int sum = check.make(8, 0, 0, 0, check.make(9, 0, 0, 0, check.make(3, 0, 5, 0), long91), long91);
         check.comes("185 CALLS, never 101 open", sum, 8, 4);
         check.due("steps", house.told(1), 1 + 91 + 1 + 1 + 91);
     }
 
     private static void outOfFuel() {
         HandleHouse house = check.sentence("then it is a STEP, OUT OF FUEL if that is one more than FUEL;");
-        int five = chain(5);
+        int five = chains(5)[5];
         check.due("FUEL 5 for 5 STEPS", check.run(five, 5, 7), 0);
         check.due("steps", house.told(1), 5);
         check.due("FUEL 4 for 5 STEPS", check.run(five, 4, 7), 2);

@@ -203,6 +203,7 @@ public final class EdgesFormsTest {
         long[] by = {0, 1, 5, 31, 32, 33, 63, 64, 65, -1, -32, -33};
         for (long n : by) {
             int m = (int) n;
+            check.again();
             check.comes("I << " + n, check.make(3, 8, 5, 0), 0x12345678 << m, 0x12345678, n);
             check.comes("I >> " + n, check.make(3, 9, 5, 0), -0x12345678 >> m, -0x12345678, n);
             check.comes("I >>> " + n, check.make(3, 10, 5, 0), -0x12345678 >>> m, -0x12345678, n);

@@ -309,6 +309,7 @@ public final class EdgesHandlesTest {
     private static void elementErrors() {
         check.sentence("a ROW a, its ELEMENTS e: NULL: ERROR 1; no such ELEMENT: ERROR 6.");
         for (int kind = 15; kind <= 17; kind++) {
+            check.again();
             int row = check.row(kind, 2);
             int none = check.row(kind, 0);
             long other = kind == 17 ? -1 : 5;
@@ -718,6 +719,8 @@ public final class EdgesHandlesTest {
         check.refused("3 ahead of 4: COLLECT", 3, 7, 0, 0, 0, ten, ten);
         check.refused("3 ahead of 4: SPREAD", 3, 10, 16, 1, 0, ten);
         check.refused("2 ahead of 4: DROP", 2, 4, 11, own, 0, ten);
+        house = check.again();
+        less = check.make(3, 11, 5, 0);
         check.fillTypes(299);
         check.self(19);
         check.due("300 TYPES", house.told(6), 300);

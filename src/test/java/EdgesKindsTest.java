@@ -172,30 +172,42 @@ public final class EdgesKindsTest {
 
     private static void belowNumber() {
         check.sentence("the BOXES of B, S, I, J are BELOW N;");
+        check.again();
         isOf("a box of Z", check.box(1, 1), 7, 9);
+        check.again();
         isOf("a box of B", check.box(2, 1), 7, 8, 10);
+        check.again();
         isOf("a box of S", check.box(3, 1), 7, 8, 11);
+        check.again();
         isOf("a box of C", check.box(4, 1), 7, 12);
+        check.again();
         isOf("a box of I", check.box(5, 1), 7, 8, 13);
+        check.again();
         isOf("a box of J", check.box(6, 1), 7, 8, 14);
+        check.again();
         isOf("H", check.object(check.self(5)), 7, 18);
+        check.again();
         isOf("E", check.kept(check.make(3, 3, 5, 0), 1, 0), 7, 19);
     }
 
     private static void belowParents() {
-        HandleHouse house = check.sentence("a CLASS is BELOW its PARENT and all that this is BELOW.");
-        house.newClass(7, 0);
-        house.newClass(20, 0);
-        house.newClass(21, 0);
-        house.newClass(19, 0);
-        house.newClass(23, 0);
-        isOf("20", check.instance(20), 7, 20);
-        isOf("21", check.instance(21), 7, 20, 21);
-        isOf("22", check.instance(22), 7, 20, 21, 22);
-        isOf("23", check.instance(23), 7, 19, 23);
-        isOf("24", check.instance(24), 7, 19, 23, 24);
+        check.sentence("a CLASS is BELOW its PARENT and all that this is BELOW.");
+        int[][] below = {{7, 20}, {7, 20, 21}, {7, 20, 21, 22}, {7, 19, 23}, {7, 19, 23, 24}};
+        for (int i = 0; i < below.length; i++) {
+            fiveClasses();
+            isOf("" + (20 + i), check.instance(20 + i), below[i]);
+        }
+        fiveClasses();
         check.hasType("THROW of one BELOW E", check.make(19, 5, 24, 0), 5, 24);
         check.refused("THROW of one that isn't", 1, 19, 5, 22, 0);
+    }
+
+    /** 20, 21 and 22, each below the one ahead; 23 below E, 24 below it. */
+    private static void fiveClasses() {
+        HandleHouse house = check.again();
+        for (int parent : new int[] {7, 20, 21, 19, 23}) {
+            house.newClass(parent, 0);
+        }
     }
 
     private static void plainValues() {
@@ -453,6 +465,8 @@ public final class EdgesKindsTest {
         house.newClass(7, 0);
         String[] plain = {"100000", "011011", "001011", "000111", "000011", "000001"};
         for (int to = 1; to <= 6; to++) {
+            house = check.again();
+            house.newClass(7, 0);
             check.due("O to " + to, house.may(7, to, false), true);
             check.due("N to " + to, house.may(8, to, false), to != 1 && to != 4);
             for (int box = 9; box <= 14; box++) {
@@ -496,6 +510,7 @@ public final class EdgesKindsTest {
             + " (of Z one bit; of C without sign; of others with sign);");
         long[] numbers = {0, 1, -1, 2, 127, 128, -129, 255, 32767, 32768, -32769, 65535, 65536, 1L << 31, (1L << 32) - 1, 1L << 32, MIN, MAX};
         for (int to = 1; to <= 6; to++) {
+            house = check.again();
             for (int from = 1; from <= 6; from++) {
                 check.due(from + " to " + to, house.may(from, to, true), true);
             }
@@ -517,8 +532,9 @@ public final class EdgesKindsTest {
 
     private static void forcingReference() {
         HandleHouse house = check.sentence("and REFERENCE to PLAIN MAY from O, N and each BOX: NULL: 0; no BOX: ERROR 2; else its number is forced.");
-        house.newClass(7, 0);
         for (int to = 1; to <= 6; to++) {
+            house = check.again();
+            house.newClass(7, 0);
             for (int from = 7; from <= 20; from++) {
                 check.due(from + " to " + to, house.may(from, to, true), from <= 14);
                 if (from > 14) {

@@ -691,8 +691,8 @@ public final class EdgesMembersTest {
         HandleHouse house = check.sentence("4 no room for the TYPE without it, 5 there are 100 members.");
         house.newClass(7, 0);
         int h = check.empty(6, 20, 19, 19);
-        int known = check.empty(6, 20, 18);
-        check.type(6, 18);
+        int known = check.empty(6, 20, 17);
+        check.type(6, 17);
         check.fillTypes(300);
         for (int i = 0; i < 99; i++) {
             house.field(20, i, 5, true, PUBLIC);

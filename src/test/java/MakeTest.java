@@ -465,10 +465,12 @@ public final class MakeTest {
 
     private static void room() {
         HandleHouse house = check.fresh("promise 6");
-        for (int i = 0; i < 500; i++) {
+        for (int i = 0; i < 100; i++) {
             check.due("handle " + i, check.constant(5, i), i);
         }
-        check.refused("the 501st", 5, 0, 5, 0, 500);
+        check.fillHandles(499);
+        check.due("the 500th", check.constant(6, 500), 499);
+        check.refused("the 501st", 5, 0, 6, 0, 501);
         check.refused("also of a new type: no type is made", 5, 2, 5, 0, 0);
         check.due("an old one is still there", check.constant(5, 77), 77);
         check.due("refused()", house.refused(), 0);

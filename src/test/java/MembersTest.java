@@ -96,21 +96,19 @@ public final class MembersTest {
     private static void methodRoom() {
         HandleHouse house = check.fresh("promise 10");
         house.newClass(7, 0);
-        int self = check.make(2, 20, 0, 0);
         int plus = check.make(3, 0, 5, 0);
-        for (int a = 1; house.told(6) < 300; a++) {
-            check.type(0, 1 + a % 18, 1 + a / 18);
-        }
-        told("no room for its type", house.method(20, 1, self, false, 3), -1, 4);
+        int bound = check.make(34, 0, check.type(5, 20, 6), 0);
+        check.fillTypes(300);
+        told("no room for its type", house.method(20, 1, bound, false, 3), -1, 4);
         for (int i = 0; i < 100; i++) {
-            told("static " + i, house.method(20, 1, plus, true, 3), i, 0);
+            check.due("static " + i, house.method(20, 1, plus, true, 3), i);
         }
         told("the 101st", house.method(20, 1, plus, true, 3), -1, 5);
-        told("4 ahead of 5", house.method(20, 1, self, false, 3), -1, 4);
+        told("4 ahead of 5", house.method(20, 1, bound, false, 3), -1, 4);
         check.fresh("promise 10");
         house = check.house;
         house.newClass(7, 0);
-        self = check.make(2, 20, 0, 0);
+        int self = check.make(2, 20, 0, 0);
         plus = check.make(3, 0, 5, 0);
         for (int i = 0; i < 100; i++) {
             house.method(20, 1, plus, true, 3);
@@ -438,18 +436,18 @@ public final class MembersTest {
         house.field(20, 2, 6, true, PRIVATE);
         int plus = check.make(3, 0, 5, 0);
         house.method(20, 3, plus, true, PUBLIC);
-        for (int i = 0; house.told(7) < 500; i++) {
-            check.constant(5, i);
-        }
+        check.fillHandles(500);
         int types = house.told(6);
         told("no room for the handle", house.find(20, 20, 1, 0, 5), -1, 5);
         check.due("no type is made", house.told(6), types);
         told("a static method needs none", house.find(20, 20, 3, house.handle(plus, 0), 0), plus, 0);
         house.newClass(7, 0);
         told("7 ahead of 5", house.find(21, 20, 2, 0, 4), -1, 7);
-        for (int a = 1; house.told(6) < 300; a++) {
-            check.type(0, 1 + a % 18, 1 + a / 18);
-        }
+        house = check.fresh("promise 11, room");
+        house.newClass(7, 0);
+        house.field(20, 1, 5, true, PUBLIC);
+        check.fillTypes(300);
+        check.fillHandles(500);
         told("4 ahead of 5", house.find(20, 20, 1, 0, 5), -1, 4);
     }
 }

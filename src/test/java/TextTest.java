@@ -527,13 +527,11 @@ public final class TextTest {
 
     private static void typeRoom() {
         HandleHouse house = check.fresh("promise 27");
-        for (int a = 0; house.told(6) < 299; a++) {
-            check.type(0, 1 + a % 18, 1 + a / 18);
-        }
+        check.fillTypes(300);
         check.faulty("(def f i () (+ 1 2))", 8, 12);
         check.due("300 types", house.told(6), 300);
-        check.faulty("(def g j () 1)", 8, 0);
-        check.faulty("(def h i () 1l)", 8, 12);
+        check.faulty("(def g j ((a j)) 1)", 8, 0);
+        check.faulty("(def h i () (let (a 1) 1))", 8, 23);
         check.sound("(def k i () 1)");
         check.comes("what is known can be made", check.named("k"), 1);
     }
