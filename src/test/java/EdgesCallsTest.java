@@ -378,6 +378,9 @@ public final class EdgesCallsTest {
         check.due("NULL is of each REFERENCE", check.run(size, 9, -1), 1);
         check.due("no values for none", house.run(check.constant(5, 1), 9), 0);
         check.due("a value for none", check.run(check.constant(5, 1), 9, 1), -1);
+        check.due("-1 for none", check.run(check.constant(5, 1), 9, -1), -1);
+        check.due("a third value, -1", check.run(plus, 9, 1, 2, -1), -1);
+        check.due("NULL and -1", check.run(size, 9, -1, -1), -1);
     }
 
     private static void refusedRunTakesValues() {

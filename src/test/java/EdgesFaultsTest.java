@@ -27,6 +27,7 @@ public final class EdgesFaultsTest {
         noTargetRoom();
         tooManyPlaces();
         whatWasMadeStays();
+        nothingMore();
         check.end();
     }
 
@@ -175,6 +176,8 @@ public final class EdgesFaultsTest {
         check.sound("(def d i()" + repeated("(+ 1 ", 17) + "(let(x 1)x)" + repeated(")", 17) + ")");
         check.faultAt(5, "(def e i()" + repeated("(+ 1 ", 17) + "(loop(@(x 1)");
         check.faultAt(5, "(def f i()" + repeated("(+ 1 ", 18) + "(try 1@(x)");
+        check.faultAt(4, "(def f2 i()" + repeated("(+ 1 ", 17) + "(loop(@");
+        check.faultAt(4, "(def f3 i()" + repeated("(+ 1 ", 17) + "(loop(@)");
         check.sound("(def g i()" + repeated("(+(+ 1 1)", 18) + "1" + repeated(")", 18) + ")");
         check.comes("those that were closed don't count", check.named("g"), 37);
         check.faultAt(5, "(def h i()" + repeated("(+(+ 1 1)", 18) + "(+@(+ 1 1)");
@@ -441,5 +444,35 @@ public final class EdgesFaultsTest {
         check.faultAt(7, "@(def d b()1)");
         check.comes("also behind its )", check.named("d"), 0);
         check.due("four DEFINITIONS", house.fault(2), 4);
+        check.due("its TARGET is aimed still, and so can be aimed", house.aim(3, check.named("d")), true);
+    }
+
+    /** Behind a FAULT nothing is made. */
+    private static void nothingMore() {
+        HandleHouse house = check.sentence("What was made until then stays,");
+        String[] faulty = {"(+ q 77)", "(q 77)", "(as q 77)", "(? 77 88)", "(99999999999 77)", "(abcdefghi 77)", "(if q 77 88)", "(let(q)77)", "(let(q q)77)",
+            "(do q 77)", "(loop((q))(77)88 99)", "(try q(q)77)", "(throw q 77)", "(null q)77", "(i ? 77)", "(set 99999999999 77 88)", "(get q 77)"};
+        for (String one : faulty) {
+            house = check.again();
+            check.read("(def i i()" + one + ")");
+            check.due(one + ": a FAULT", house.fault(0) != 0, true);
+            check.due(one + ": EMPTY and TARGET alone", house.told(7), 2);
+            check.due(one + ": their TYPE alone", house.told(6), 1);
+        }
+        house = check.again();
+        check.fillHandles(498);
+        int types = house.told(6);
+        check.faultAt(8, "(def a j()@77l)");
+        check.due("TYPES: ()J", house.told(6), types + 1);
+        house = check.again();
+        check.fillHandles(498);
+        types = house.told(6);
+        check.faultAt(8, "(def a j((x z)(y xo))@77l)");
+        check.due("no CONSTANT, so no TYPE but (Z XO)J", house.told(6), types + 1);
+        house = check.again();
+        check.fillHandles(498);
+        types = house.told(6);
+        check.faultAt(8, "(def a j((x z)(y xo))@x)");
+        check.due("no SELF, so no TYPE but (Z XO)J", house.told(6), types + 1);
     }
 }

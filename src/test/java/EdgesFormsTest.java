@@ -40,6 +40,7 @@ public final class EdgesFormsTest {
         catchCalls();
         finallyForms();
         finallyCalls();
+        finallyThrowing();
         switches();
         check.end();
     }
@@ -183,7 +184,8 @@ public final class EdgesFormsTest {
     private static void divisions() {
         HandleHouse house = check.sentence("0 + 1 - 2 * 3 / 4 rest (towards 0; by 0: ERROR 3)");
         int lowest = Integer.MIN_VALUE;
-        long[][] rows = {{7, 2, 3, 1}, {-7, 2, -3, -1}, {7, -2, -3, 1}, {-7, -2, 3, -1}, {0, 5, 0, 0}, {1, lowest, 0, 1}};
+        long[][] rows = {{7, 2, 3, 1}, {-7, 2, -3, -1}, {7, -2, -3, 1}, {-7, -2, 3, -1}, {0, 5, 0, 0}, {1, lowest, 0, 1},
+            {9, 1, 9, 0}, {-9, 1, -9, 0}, {9, -1, -9, 0}};
         for (long[] row : rows) {
             for (int b = 5; b <= 6; b++) {
                 check.comes(row[0] + " / " + row[1], check.make(3, 3, b, 0), row[2], row[0], row[1]);
@@ -289,6 +291,8 @@ public final class EdgesFormsTest {
         int type = check.type(5, 6, 5, 15);
         check.hasType("MOVE", check.make(5, 0, type, 0, get, 2, 1), 5, 6, 5, 15);
         check.refused("another RESULT", 3, 5, 0, check.type(6, 5, 15), 0, get, 1, 0);
+        check.refused("RESULT V", 3, 5, 0, check.type(0, 5, 15), 0, get, 1, 0);
+        check.refused("RESULT C", 3, 5, 0, check.type(4, 5, 15), 0, get, 1, 0);
         check.refused("a number too few", 1, 5, 0, type, 0, get, 2);
         check.refused("a number too many", 1, 5, 0, type, 0, get, 2, 1, 1);
         check.refused("without h", 1, 5, 0, type, 0);
@@ -620,6 +624,7 @@ public final class EdgesFormsTest {
         int h = check.make(15, 19, 0, 0, divide, code);
         check.comes("with that, and its values", h, 390, 9, 0);
         check.comes("none THROWN", h, 4, 9, 2);
+        check.comesTo("an OBJECT of E that is the RESULT", 19, 3, check.make(15, 19, 0, 0, check.self(19), check.empty(19, 19)), error);
         int wide = check.make(4, 2, check.type(0, 5), 0, divide);
         int third = check.make(5, 0, check.type(5, 19, 5, 5, 5), 0, check.self(5), 3);
         check.comes("all its values", check.make(15, 19, 0, 0, wide, third), 77, 9, 0, 77);
@@ -636,6 +641,8 @@ public final class EdgesFormsTest {
         check.refused("another one", 3, 16, 0, 0, 0, get, check.empty(6, 19, 6, 5));
         check.refused("without the RESULT's PLACE", 3, 16, 0, 0, 0, get, check.empty(6, 19));
         check.refused("another kind there", 3, 16, 0, 0, 0, get, check.empty(6, 19, 16, 5));
+        check.refused("I there", 3, 16, 0, 0, 0, get, check.empty(6, 19, 5));
+        check.refused("O there", 3, 16, 0, 0, 0, get, check.empty(6, 19, 7));
         check.refused("without E", 3, 16, 0, 0, 0, get, check.empty(6, 6, 16));
         check.refused("no PLACES", 3, 16, 0, 0, 0, get, check.empty(6));
         check.refused("another RESULT", 3, 16, 0, 0, 0, get, check.empty(0, 19, 6));
@@ -677,6 +684,30 @@ public final class EdgesFormsTest {
         check.comes("the same as NULL", check.make(25, 17, 0, 0), 1, row, 0, -1, -1);
     }
 
+    /** (E I)I that does as a handle of no PLACES. */
+    private static int finalized(int h) {
+        return check.make(16, 0, 0, 0, check.make(3, 3, 5, 0), check.make(4, 0, check.type(0, 19, 5), 0, h));
+    }
+
+    private static void finallyThrowing() {
+        HandleHouse house = check.sentence("What is thrown in a CALL that is within it, it THROWS, but where told.");
+        int noSize = check.make(6, 0, 0, -1, check.make(21, 15, 0, 0));
+        check.fails("f THROWS behind a RESULT", finalized(noSize), 1, 9, 2);
+        check.fails("f THROWS behind what was thrown", finalized(noSize), 1, 9, 0);
+        int seven = finalized(check.constant(5, 7));
+        check.fails("what was thrown", seven, 3, 9, 0);
+        check.due("STEPS", house.told(1), 4);
+        check.due("f is OUT OF FUEL", check.run(seven, 2, 9, 0), 2);
+        check.due("within f OUT OF FUEL", check.run(seven, 3, 9, 0), 2);
+        check.due("no OBJECT", house.told(3), 0);
+        int row = check.make(9, 0, 0, 0, check.make(6, 0, 0, 101, check.make(20, 15, 0, 0)), check.make(21, 15, 0, 0));
+        check.due("f is FULL", check.run(finalized(row), 99, 9, 0), 4);
+        int target = house.target(check.constant(5, 7));
+        int again = check.make(29, target, 0, 0);
+        house.aim(target, again);
+        check.due("f is TOO DEEP", check.run(finalized(again), 999, 9, 0), 3);
+    }
+
     private static void elementsAre(String what, int row, long[] numbers, long[] kinds) {
         for (int i = 0; i < numbers.length; i++) {
             check.due(what + ", value " + i, check.house.element(row, i, 0), numbers[i]);
@@ -700,6 +731,9 @@ public final class EdgesFormsTest {
         check.comes("the least: h", h, Integer.MIN_VALUE, Integer.MIN_VALUE, 0);
         check.due("STEPS", house.told(1), 2);
         check.comes("no others", check.make(17, 0, 0, 0, plus), 6, 0, 6);
+        int dropped = check.make(4, 0, check.type(0, 5, 5), 0, h);
+        check.comes("within another CALL", dropped, 60, 0, 9, 1, 60);
+        check.comes("within two others", check.make(4, 0, check.type(0, 5, 5), 0, dropped), -60, 1, 1, 9, 9, 0, 60);
         check.refused("no h", 1, 17, 0, 0, 0);
         check.refused("another TYPE", 3, 17, 0, 0, 0, plus, minus, check.self(5));
         check.refused("another RESULT", 3, 17, 0, 0, 0, plus, check.make(3, 11, 5, 0));

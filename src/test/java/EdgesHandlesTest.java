@@ -94,6 +94,8 @@ public final class EdgesHandlesTest {
         int minus = check.make(3, 1, 6, 0);
         int two = check.make(18, 0, type, 0, wide, -1, -1, -1, -1, -1, -1, -1, check.constant(6, 4), -1, no, minus);
         check.comes("in the order of the clauses", two, 5);
+        int stepped = check.make(18, 0, type, 0, wide, -1, -1, -1, check.constant(6, 4), check.constant(6, 2), no, minus);
+        check.comes("one of INIT alone ahead of one with a STEP", stepped, 7);
         int tested = check.make(18, 0, type, 0, -1, -1, check.constant(1, 1), -1, wide, -1, no, self);
         check.comes("a clause with a TEST alone has none", tested, 9);
         check.again();
@@ -580,6 +582,10 @@ public final class EdgesHandlesTest {
         check.due("one PART more", check.make(17, 0, 0, 0, plus, minus, plus), bound + 7);
         check.due("another FORM", check.make(1, 0, 0, 0, plus), bound + 8);
         check.due("how many", house.told(7), bound + 9);
+        int no = check.constant(1, 0);
+        int loop = check.make(18, 0, check.type(5), 0, -1, -1, no, -1);
+        check.due("PARTS more that are -1", check.make(18, 0, check.type(5), 0, -1, -1, no, -1, -1, -1, -1, -1), loop + 1);
+        check.due("without them", check.make(18, 0, check.type(5), 0, -1, -1, no, -1), loop);
     }
 
     private static void refusalOne() {
@@ -607,6 +613,15 @@ public final class EdgesHandlesTest {
             check.due("CLASS, WAY, TYPE", house.find(find[0], find[1], find[2], find[3], find[4]), -1);
             check.due("1", house.refused(), 1);
         }
+        for (int kind = 21; kind < 32; kind++) {
+            house.newClass(19, 0);
+        }
+        for (int form : new int[] {0, 2, 15, 19, 20, 21, 22, 23, 24, 25, 26, 31}) {
+            int[] parts = form == 15 ? new int[] {self, self} : new int[0];
+            check.refused("kind 32 when there are all CLASSES, FORM " + form, 1, form, 32, 19, -1, parts);
+        }
+        check.refused("b 32", 1, 19, 5, 32, 0);
+        check.refused("b 32 on OPERATION", 1, 3, 0, 32, 0);
         for (int form : new int[] {0, 2, 3, 19, 20, 21, 22, 23, 24, 25, 31, 32, 33, 34}) {
             check.refused("FORM " + form + " has no PARTS", 1, form, form == 3 ? 0 : form == 19 ? 5 : 17, form == 19 ? 19 : form == 3 ? 5 : 0, -1, self);
         }
@@ -857,6 +872,12 @@ public final class EdgesHandlesTest {
         for (int h : new int[] {Integer.MIN_VALUE, -1, 3, 500, Integer.MAX_VALUE}) {
             check.due("HANDLE " + h, house.constant(h), 0);
         }
+        check.fillHandles(499);
+        check.due("the last", house.constant(check.constant(5, -7)), -7);
+        check.due("500", house.told(7), 500);
+        check.due("of 499", house.constant(499), -7);
+        check.due("of 500", house.constant(500), 0);
+        check.due("no such HANDLE", house.handle(500, 0), -1);
     }
 
     private static void refusedTells() {

@@ -390,6 +390,10 @@ public final class EdgesKindsTest {
                 check.due("type " + type + ", what " + what, house.typeAbout(type, what), -1);
             }
         }
+        check.fillTypes(300);
+        for (int what = -3; what <= 10; what++) {
+            check.due("300 of 300, what " + what, house.typeAbout(300, what), -1);
+        }
     }
 
     private static void passingItself() {

@@ -370,7 +370,11 @@ public final class EdgesMembersTest {
         int h = house.find(20, 20, 4, check.type(5), 1);
         check.fails("NULL", h, 1, -1);
         check.due("nothing is called", house.told(1), 1);
-        check.comes("an INSTANCE", h, 8, check.instance(20));
+        int object = check.instance(20);
+        check.comes("an INSTANCE", h, 8, object);
+        int within = check.make(4, 0, check.type(0, 7, 7), 0, h);
+        check.fails("NULL within another CALL", within, 1, object, object, -1);
+        check.comes("an INSTANCE within another CALL", within, 8, -1, -1, object);
     }
 
     private static void virtualPrivate() {
@@ -426,6 +430,13 @@ public final class EdgesMembersTest {
         check.comes("found above", top, 1, objects[20]);
         check.comes("found above, called below", top, 2, objects[21]);
         check.due("STEPS", house.told(1), 3);
+        int within = check.make(4, 0, check.type(0, 7, 7), 0, top);
+        check.comes("the OBJECT of this CALL, within another", within, 2, objects[20], objects[20], objects[21]);
+        for (int i = house.told(8); i < 100; i++) {
+            house.field(20, 50, 5, true, PUBLIC);
+        }
+        check.comes("with all 100 members", top, 1, objects[20]);
+        check.comes("with all 100 members, called below", top, 9, objects[23]);
         house = check.again();
         house.newClass(7, 0);
         house.newClass(20, 0);
@@ -454,7 +465,11 @@ public final class EdgesMembersTest {
         check.hasType("SPECIAL", h, 5, 22);
         check.fails("NULL", h, 1, -1);
         check.due("nothing is called", house.told(1), 1);
-        check.comes("the found one's HANDLE, not that of the OBJECT's CLASS", h, 1, check.instance(22));
+        int object = check.instance(22);
+        check.comes("the found one's HANDLE, not that of the OBJECT's CLASS", h, 1, object);
+        int within = check.make(4, 0, check.type(0, 7, 7), 0, h);
+        check.fails("NULL within another CALL", within, 1, object, object, -1);
+        check.comes("within another CALL", within, 1, -1, -1, object);
         refused("6 ahead of 7", house.find(23, 20, 5, type, 2), 6);
         int minus = check.make(4, 0, check.type(0, 20), 0, check.make(3, 1, 5, 0));
         house.method(20, 8, minus, false, PUBLIC);
@@ -662,6 +677,8 @@ public final class EdgesMembersTest {
         }
         refused("the 101st", house.field(20, 1, 5, true, PUBLIC), 5);
         check.due("100", house.told(8), 100);
+        found("the last is found", house.find(20, 20, 99, -1, 4), 0);
+        refused("none of them all", house.find(20, 20, 1, check.type(5), 1), 6);
     }
 
     private static void methodRefused() {

@@ -99,6 +99,9 @@ public final class EdgesTextsTest {
         check.comes("1l2 are two", def("h", "j()(+ 1l2)"), 3);
         check.comes("12a are two", def("k", "i((a i))(+ 12a)"), 17, 5);
         check.comes("1la are two: 1l, a", def("m", "j((a i))(+ 1la)"), 6, 5);
+        check.comesTo("12k are two", 13, 17, def("m1", "o((k i))(+ 12k)"), 5);
+        check.comesTo("12m are two", 13, 17, def("m2", "o((m i))(+ 12m)"), 5);
+        check.comesTo("12z are two", 13, 17, def("m3", "o((z i))(+ 12z)"), 5);
         check.comes("without blanks", def("n", "i((a i)(b i))(-(+ a 1)(+ b 2))"), 4, 8, 3);
         check.faultAt(4, "(def p i()@))");
         check.faultAt(4, "(def q i()(@())");
@@ -208,7 +211,7 @@ public final class EdgesTextsTest {
         check.sentence("DEFINITIONS, one behind the other: ( def NAME RESULT ( PARAMETERS ) A ),");
         check.sound("(def f i()1)(def g i()2)");
         check.due("two", check.house.fault(2), 2);
-        String[] wrong = {"@def", "@)", "@1", "@+", "@a", "(@", "(@)", "(@(", "(@1", "(@fed", "(def@", "(def @(", "(def @1", "(def a@", "(def a @(",
+        String[] wrong = {"@def", "@)", "@1", "@+", "@a", "(@", "(@)", "(@(", "(@1", "(@fed", "(@a", "(@d", "(@dee i", "(@deg", "(@if 1 2 3)", "(def@", "(def @(", "(def @1", "(def a@", "(def a @(",
             "(def a @1", "(def a i@", "(def a i @1", "(def a i @i", "(def a i(@", "(def a i(@1", "(def a i(@i", "(def a i()@", "(def b i()@)",
             "(def c i()1@", "(def d i()1 @1)", "(def e i()1 @(", "(def h i()1)@)"};
         for (String text : wrong) {
@@ -411,6 +414,14 @@ public final class EdgesTextsTest {
         check.faultAt(7, "(def x3 o((a xj)(b i))@(+ a b))");
         check.faultAt(4, "(def x4 i()(+ 1 @))");
         check.faultAt(4, "(def x5 i()(+ 1 2 @3))");
+        check.faultAt(7, "(def x6 i((a i)(b xi))@(+ a b))");
+        int made = check.house.told(7);
+        check.faultAt(7, "(def x7 i((a i)(b xi))@(+ a b))");
+        check.due("I as it is, with a ROW: no AS is made", check.house.told(7), made + 1);
+        check.again();
+        check.faultAt(7, "(def x8 i((a i)(b e))@(+ a b))");
+        check.due("EMPTY, TARGET, SELF, MOVE, SELF, MOVE", check.house.told(7), 6);
+        check.again();
         check.comesTo("V as I", 13, 5, def("p", "o((r xi))(+(set r 0 1)5)"), check.row(15, 1));
     }
 
