@@ -592,10 +592,20 @@ public final class EdgesCallsTest {
             check.due("ELEMENT " + k, house.element(row, k, 0), 0);
             check.due("its kind", house.element(row, k, 1), 0);
         }
-        for (int v : new int[] {Integer.MIN_VALUE, -1, 3, 100, Integer.MAX_VALUE, box, none}) {
+        int zero = check.box(5, 0);
+        int handle = check.object(0);
+        int error = check.kept(check.make(3, 3, 6, 0), 1, 0);
+        int one = check.box(6, 1);
+        for (int v : new int[] {Integer.MIN_VALUE, -1, 7, 100, Integer.MAX_VALUE, box, none, zero, handle, error, one}) {
             check.due("VALUE " + v, house.element(v, 0, 0), 0);
             check.due("its kind", house.element(v, 0, 1), 0);
         }
+        house.newClass(7, 0);
+        house.field(20, 1, 5, false, 3);
+        int instance = check.instance(20);
+        check.run(house.find(20, 20, 1, 0, 5), 9, instance, 55);
+        check.due("an INSTANCE", house.element(instance, 0, 0), 0);
+        check.due("its kind", house.element(instance, 0, 1), 0);
         for (int what : new int[] {Integer.MIN_VALUE, -1, 2, Integer.MAX_VALUE}) {
             check.due("what " + what, house.element(row, 0, what), 0);
         }

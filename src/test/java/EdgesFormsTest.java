@@ -41,6 +41,7 @@ public final class EdgesFormsTest {
         finallyForms();
         finallyCalls();
         finallyThrowing();
+        finallyNeighbours();
         switches();
         check.end();
     }
@@ -115,6 +116,7 @@ public final class EdgesFormsTest {
         check.comesTo("-1 of a PLAIN kind is a number", 0, -1, check.constant(2, -1));
         check.refused("with a PART", 1, 0, 5, 0, 1, 0);
         check.refused("of V", 1, 0, 0, 0, 0);
+        check.refused("NULL of V", 1, 0, 0, 0, -1);
         check.refused("of kind -1", 1, 0, -1, 0, 0);
         check.refused("of kind 20", 1, 0, 20, 0, -1);
     }
@@ -125,6 +127,11 @@ public final class EdgesFormsTest {
         check.refused("no VALUE 0", 1, 0, 16, 0, 0);
         int row = check.row(16, 7);
         check.due("the first VALUE", row, 0);
+        for (int plain = 1; plain <= 6; plain++) {
+            check.comesTo("0 of a PLAIN kind is no VALUE", 0, 0, check.constant(plain, 0));
+            check.comesTo("nor is one that is bound", 0, 0, check.make(6, 0, 0, 0, check.self(plain)));
+            check.comesTo("nor one that waits", 0, 0, check.self(plain), 0);
+        }
         check.comesTo("VALUE 0", 16, 7, check.constant(16, 0));
         check.comesTo("VALUE 0 as O", 16, 7, check.constant(7, 0));
         check.refused("VALUE 0 of another kind", 3, 0, 15, 0, 0);
@@ -298,6 +305,10 @@ public final class EdgesFormsTest {
         check.refused("without h", 1, 5, 0, type, 0);
         check.refused("the number 3 of three", 2, 5, 0, type, 0, get, 2, 3);
         check.refused("the number -1", 2, 5, 0, type, 0, get, -1, 1);
+        check.refused("the last number -1", 2, 5, 0, type, 0, get, 2, -1);
+        check.refused("the first number 3", 2, 5, 0, type, 0, get, 3, 1);
+        check.refused("no such HANDLE, no number", 1, 5, 0, type, 0, 99);
+        check.refused("HANDLE -1, no number", 1, 5, 0, type, 0, -1);
         check.refused("the first of another kind", 3, 5, 0, type, 0, get, 1, 1);
         check.refused("the last of another kind", 3, 5, 0, type, 0, get, 2, 0);
         check.refused("no such TYPE", 1, 5, 0, 99, 0, get, 2, 1);
@@ -313,6 +324,12 @@ public final class EdgesFormsTest {
         int type = check.type(5, 5, 5, 5, 5);
         check.comes("another order", check.make(5, 0, type, 0, digits, 3, 0, 2), 413, 1, 2, 3, 4);
         check.comes("one for all", check.make(5, 0, type, 0, digits, 1, 1, 1), 222, 1, 2, 3, 4);
+        int row = check.row(15, 3);
+        int turned = check.make(5, 0, check.type(0, 5, 5, 15), 0, check.make(23, 15, 0, 0), 2, 1, 0);
+        check.comes("of RESULT V", turned, 0, 70, 2, row);
+        check.due("so it was set", check.house.element(row, 2, 0), 70);
+        check.comes("of RESULT Z", check.make(5, 0, check.type(1, 5, 5), 0, check.make(3, 11, 5, 0), 1, 0), 1, 7, 6);
+        check.comes("of RESULT Z", check.make(5, 0, check.type(1, 5, 5), 0, check.make(3, 11, 5, 0), 1, 0), 0, 6, 7);
     }
 
     private static void bind() {
@@ -336,6 +353,14 @@ public final class EdgesFormsTest {
         check.comes("a VALUE", check.make(6, 0, 0, row, size), 9);
         check.due("STEPS", house.told(1), 2);
         check.refused("a VALUE of another kind", 3, 6, 0, 0, other, size);
+        int box = check.box(5, 77);
+        check.comesTo("a VALUE of O", 13, 77, check.make(6, 0, 0, box, check.self(7)));
+        check.comesTo("another at the same PLACE", 16, 9, check.make(6, 0, 0, other, check.self(7)));
+        int second = check.make(4, 0, check.type(0, 7), 0, check.self(7));
+        check.comesTo("a VALUE at PLACE 1", 13, 77, check.make(6, 1, 0, box, second), row);
+        check.comesTo("NULL at PLACE 1", 0, 0, check.make(6, 1, 0, -1, second), row);
+        check.comes("SAME", check.make(6, 1, 0, row, check.make(32, 0, 0, 0)), 1, row);
+        check.comes("not SAME", check.make(6, 1, 0, row, check.make(32, 0, 0, 0)), 0, other);
     }
 
     private static void collect() {
@@ -499,6 +524,14 @@ public final class EdgesFormsTest {
         check.refused("10 behind one: eleven PLACES", 4, 11, 0, 10, 0, behind);
         check.refused("the last is no ROW", 3, 11, 0, 1, 0, check.make(22, 15, 0, 0));
         check.refused("no PLACE", 3, 11, 0, 0, 0, check.constant(5, 1));
+        for (int kind : new int[] {6, 7, 8, 14, 18, 19}) {
+            check.refused("the last is of kind " + kind, 3, 11, 0, 1, 0, check.empty(5, 15, kind));
+        }
+        int third = check.make(4, 3, check.type(0, 15), 0, digits());
+        check.comes("one of them behind three", check.make(11, 0, 1, 0, third), 357, 3, 5, 7, 0);
+        check.comes("none of them behind three", check.make(11, 0, 0, 0, third), 468, 4, 6, 8);
+        house = check.again();
+        self = check.self(16);
         check.comesTo("a ROW of none", 16, 0, check.make(11, 0, 0, 0, self));
         int h = check.make(11, 0, 2, 0, self);
         int row = check.kept(h, 5, MIN);
@@ -630,6 +663,19 @@ public final class EdgesFormsTest {
         check.comes("all its values", check.make(15, 19, 0, 0, wide, third), 77, 9, 0, 77);
         check.comes("all its values", check.make(15, 19, 0, 0, wide, third), 78, 9, 0, 78);
         check.fails("f THROWS", check.make(15, 19, 0, 0, divide, check.make(19, 5, 19, 0)), 3, 9, 0);
+        check.again();
+        check.due("TYPE 0", check.type(1, 19, 5, 5), 0);
+        int less = check.make(4, 0, check.type(0, 19), 0, check.make(3, 11, 5, 0));
+        int tested = check.make(15, 19, 0, 0, check.make(7, 0, 0, 0, check.make(3, 12, 5, 0), check.make(3, 3, 5, 0)),
+            check.make(5, 0, 0, 0, less, 0, 1, 2));
+        check.comes("of RESULT Z, with its values", tested, 1, -4, 0, 9);
+        check.comes("other values", tested, 0, 4, 0, 9);
+        int row = check.row(15, 3);
+        int set = check.make(6, 0, 0, row, check.make(23, 15, 0, 0));
+        int ofV = check.make(15, 19, 0, 0, check.make(9, 0, 0, 0, check.make(3, 3, 5, 0), check.empty(0, 5)), check.make(4, 0, check.type(0, 19), 0, set));
+        check.comes("of RESULT V", ofV, 0, 2, 0);
+        check.comes("that THROWS", check.make(7, 1, 0, 0, ofV, check.make(6, 0, 0, 0, check.make(3, 2, 5, 0))), 0, 1, 7);
+        check.fails("no such ELEMENT", ofV, 6, 9, 0);
     }
 
     private static void finallyForms() {
@@ -682,6 +728,35 @@ public final class EdgesFormsTest {
         check.fails("of O", nulls, 1, -1);
         check.due("the ZERO is NULL", house.element(row, 0, 1), 0);
         check.comes("the same as NULL", check.make(25, 17, 0, 0), 1, row, 0, -1, -1);
+        int given = check.make(16, 0, 0, 0, check.self(7), check.make(4, 0, check.type(0, 19), 0, check.self(7)));
+        check.comesTo("an OBJECT as RESULT", 17, 4, given, row);
+        check.comesTo("a BOX as RESULT", 13, 5, given, check.box(5, 5));
+        check.comesTo("NULL as RESULT", 0, 0, given, -1);
+    }
+
+    /** The HANDLES next to those that are called have other PLACES and other RESULTS. */
+    private static void finallyNeighbours() {
+        check.sentence("with what it threw, the ZERO and its values, and that is thrown behind f.");
+        int minus = check.make(3, 1, 5, 0);
+        int row = check.row(15, 1);
+        int f = check.make(4, 0, check.type(0, 19, 5), 0, check.make(3, 2, 5, 0));
+        int none = check.empty(0);
+        int own = check.make(5, 0, check.type(5, 5, 5), 0, check.make(3, 1, 5, 0), 1, 0);
+        check.due("no PLACES behind h", check.make(6, 0, 0, row, check.make(21, 15, 0, 0)) > own, true);
+        check.comes("f with its RESULT and its values", check.make(16, 0, 0, 0, minus, f), 42, 6, 7);
+        check.comes("other values", check.make(16, 0, 0, 0, own, f), 72, 8, 9);
+        check.due("V behind f", none > f, true);
+        check.again();
+        int times = check.make(3, 2, 5, 0);
+        check.due("RESULT V, no PLACES", check.empty(0), times + 1);
+        int first = check.make(4, 0, check.type(0, 19), 0, check.make(3, 1, 5, 0));
+        check.comes("RESULT less the first value", check.make(16, 0, 0, 0, times, first), 35, 7, 6);
+        check.comes("RESULT less another", check.make(16, 0, 0, 0, times, first), 30, 2, 16);
+        check.again();
+        check.due("TYPE 0", check.type(5, 19, 5, 5, 5), 0);
+        int last = check.make(5, 0, 0, 0, check.make(3, 1, 5, 0), 3, 2);
+        check.comes("the second less the first", check.make(16, 0, 0, 0, check.make(3, 0, 5, 0), last), 4, 5, 9);
+        check.comes("the second less the first", check.make(16, 0, 0, 0, check.make(3, 0, 5, 0), last), 40, 50, 90);
     }
 
     /** (E I)I that does as a handle of no PLACES. */
@@ -731,6 +806,10 @@ public final class EdgesFormsTest {
         check.comes("the least: h", h, Integer.MIN_VALUE, Integer.MIN_VALUE, 0);
         check.due("STEPS", house.told(1), 2);
         check.comes("no others", check.make(17, 0, 0, 0, plus), 6, 0, 6);
+        int or = check.make(3, 6, 5, 0);
+        check.due("no PLACES behind it", check.constant(5, 1), or + 1);
+        check.comes("the values of the one that is called", check.make(17, 0, 0, 0, or), 0x61, 1, 0x60);
+        check.comes("other values", check.make(17, 0, 0, 0, plus, or), 0x70, 0, 0x70);
         int dropped = check.make(4, 0, check.type(0, 5, 5), 0, h);
         check.comes("within another CALL", dropped, 60, 0, 9, 1, 60);
         check.comes("within two others", check.make(4, 0, check.type(0, 5, 5), 0, dropped), -60, 1, 1, 9, 9, 0, 60);

@@ -136,6 +136,9 @@ public final class EdgesHandlesTest {
         int seven = check.constant(5, 7);
         check.refused("TEST of I", 3, 18, 0, type, 0, -1, -1, seven, seven);
         check.refused("TEST of V", 3, 18, 0, type, 0, -1, -1, check.empty(0), seven);
+        check.refused("TEST of I without END", 3, 18, 0, type, 0, -1, -1, seven, -1);
+        check.refused("TEST of V without END", 3, 18, 0, type, 0, -1, -1, check.empty(0), -1);
+        check.refused("TEST of J behind another", 3, 18, 0, type, 0, -1, -1, no, -1, -1, -1, check.constant(6, 0), -1);
         check.refused("END of J", 3, 18, 0, type, 0, -1, -1, no, check.constant(6, 7));
         check.refused("END of V", 3, 18, 0, type, 0, -1, -1, no, check.empty(0));
         check.refused("END without TEST", 3, 18, 0, type, 0, -1, -1, -1, seven, -1, -1, no, -1);
@@ -178,6 +181,12 @@ public final class EdgesHandlesTest {
         check.comes("the ZERO of O is NULL", ofObjects, 0);
         check.comesTo("the ZERO of O is NULL", 0, 0, check.make(18, 0, check.type(7), 0, -1, check.self(7), no, check.self(7)));
         int divide = check.make(6, 1, 0, 0, check.make(3, 3, 5, 0));
+        int wide = check.self(6);
+        check.due("no PLACES ahead of it", check.constant(6, 5) + 1, check.self(4));
+        int valued = check.make(18, 0, check.type(4, 4), 0, check.self(4), -1, no, check.self(4));
+        check.comes("INIT with its value", valued, 700, 700);
+        check.comes("another value", valued, 800, 800);
+        check.comes("of J", check.make(18, 0, check.type(6, 6), 0, wide, -1, no, wide), 1L << 40, 1L << 40);
         int bad = check.make(18, 0, type, 0, check.make(6, 0, 0, 1, divide), -1, no, -1, mark(log, 9), -1, -1, -1);
         check.fails("an INIT that THROWS", bad, 3);
         check.due("the next isn't called", house.element(row, 0, 0), 123);
@@ -206,6 +215,8 @@ public final class EdgesHandlesTest {
         int seen = check.make(18, 0, type, 0, check.constant(5, 5), inc, -1, -1, -1, check.self(5), check.constant(1, 0),
             check.make(4, 0, check.type(0, 5), 0, check.self(5)));
         check.comes("a STEP sees the VARIABLES that changed ahead of it", seen, 6, 0);
+        int both = check.make(18, 0, type, 0, check.constant(5, 70), -1, check.constant(1, 0), check.make(3, 1, 5, 0), check.constant(5, 8), -1, -1, -1);
+        check.comes("END with the VARIABLES of the clauses behind it", both, 62, 1000);
         check.due("no end: OUT OF FUEL", check.run(check.make(18, 0, type, 0, -1, -1, yes, -1), 777, 0), 2);
         check.due("its FUEL", house.told(1), 777);
     }
@@ -306,6 +317,9 @@ public final class EdgesHandlesTest {
         check.comes("boxes of one number are the same", attempt, 1, objects, 0, check.box(5, 0), objects);
         check.comesTo("SWAP of the ROW within itself", 17, 1, check.make(24, 17, 0, 0), objects, 0, -1);
         check.comesTo("GET of NULL", 0, 0, check.make(22, 17, 0, 0), objects, 0);
+        check.comes("SET where NULL was", check.make(23, 17, 0, 0), 0, objects, 0, objects);
+        check.comesTo("SET where an OBJECT was: no RESULT", 0, 0, check.make(23, 17, 0, 0), objects, 0, -1);
+        check.due("nothing to keep", house.keep(), -1);
     }
 
     private static void elementErrors() {
@@ -427,6 +441,11 @@ public final class EdgesHandlesTest {
         check.refused("POINT 2", 1, 30, 2, 0, 0, minus, plus);
         check.refused("POINT -1", 1, 30, -1, 0, 0, minus, plus);
         check.refused("one PART", 1, 30, 0, 0, 0, minus);
+        int or = check.make(3, 6, 5, 0);
+        check.due("no PLACES behind it", check.constant(5, 1), or + 1);
+        check.comes("off, the values of the one that is called", check.make(30, 0, 0, 0, plus, or), 0x61, 1, 0x60);
+        house.point();
+        check.comes("on, the values of the one that is called", check.make(30, 2, 0, 0, or, plus), 0x73, 3, 0x70);
     }
 
     private static void is() {
@@ -552,6 +571,14 @@ public final class EdgesHandlesTest {
         check.due("of a third", third, swapped);
         int back = check.make(5, 0, own, 0, check.make(5, 0, check.type(5, 15, 15, 5), 0, get, 0, 2), 0, 0, 1);
         check.due("of a wider one, back to h", back, get);
+        int swap = check.make(24, 15, 0, 0);
+        int third3 = check.make(5, 0, check.type(5, 5, 5, 15), 0, swap, 2, 1, 0);
+        check.due("of a later one, back to h", check.make(5, 0, house.handle(swap, 0), 0, third3, 2, 1, 0), swap);
+        int one = check.make(5, 0, check.type(5, 15, 5), 0, third3, 1, 1, 0);
+        int[] parts = {swap, 0, 1, 1};
+        for (int i = 0; i < parts.length; i++) {
+            check.due("PART " + i + " of one MOVE of a later one", house.handle(one, 5 + i), parts[i]);
+        }
     }
 
     private static void handleNumbers() {
@@ -948,6 +975,14 @@ public final class EdgesHandlesTest {
         check.due("at what it is aimed at", house.aim(0, minus), true);
         check.due("at its own HANDLE", house.aim(0, h), true);
         check.due("that is TOO DEEP", check.run(h, 9999, 5, 4), 3);
+        house = check.again();
+        int one = check.constant(5, 1);
+        for (int i = 0; i < 5; i++) {
+            house.target(one);
+        }
+        check.due("more TARGETS than HANDLES, at HANDLE 0", house.aim(4, one), true);
+        check.due("no HANDLE 1", house.aim(4, 1), false);
+        check.comes("the last TARGET", check.make(29, 4, 0, 0), 1);
     }
 
     private static void points() {

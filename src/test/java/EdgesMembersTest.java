@@ -16,6 +16,7 @@ public final class EdgesMembersTest {
         methodHandles();
         makers();
         privateReach();
+        everyReach();
         packageReach();
         protectedReach();
         publicReach();
@@ -27,6 +28,7 @@ public final class EdgesMembersTest {
         virtualNull();
         virtualPrivate();
         virtualChosen();
+        neighbours();
         special();
         newFound();
         newCalls();
@@ -233,6 +235,42 @@ public final class EdgesMembersTest {
             check.due("its refusal", house.refused(), due ? 0 : 7);
             check.due(asker + " asks for it in 24", house.find(asker, 24, 1, 0, 5) >= 0, due);
         }
+    }
+
+    /** Each CLASS asks for members of each with each of the RIGHTS. */
+    private static void everyReach() {
+        HandleHouse house = check.sentence("A CLASS REACHES a member of a CLASS d: PRIVATE: if it is d; PACKAGE: if the PACKAGES are the same; PROTECTED: if they are,"
+            + " or it is BELOW d; PUBLIC: always.");
+        int[] parents = {7, 20, 7, 21, 19, 24, 25};
+        int[] packs = {5, 6, 6, 5, 7, 8, 5};
+        for (int i = 0; i < parents.length; i++) {
+            house.newClass(parents[i], packs[i]);
+        }
+        for (int of = 0; of < parents.length; of++) {
+            for (int rights = PRIVATE; rights <= PUBLIC; rights++) {
+                house.field(20 + of, of * 4 + rights, 5, true, rights);
+            }
+        }
+        for (int asker = 0; asker < parents.length; asker++) {
+            for (int of = 0; of < parents.length; of++) {
+                boolean below = false;
+                for (int kind = 20 + asker; kind >= 20; kind = parents[kind - 20]) {
+                    below = below || kind == 20 + of;
+                }
+                boolean same = packs[asker] == packs[of];
+                boolean[] due = {asker == of, same, same || below, true};
+                for (int rights = PRIVATE; rights <= PUBLIC; rights++) {
+                    check.due((20 + asker) + " asks " + (20 + of) + " for " + rights, house.find(20 + asker, 20 + of, of * 4 + rights, 0, 4) >= 0, due[rights]);
+                    check.due("its refusal", house.refused(), due[rights] ? 0 : 7);
+                }
+            }
+        }
+        house = check.again();
+        house.newClass(7, 3);
+        house.field(20, 1, 5, true, PACKAGE);
+        house.field(20, 2, 5, true, PROTECTED);
+        found("one CLASS alone, PACKAGE", house.find(20, 20, 1, 0, 4), 0);
+        found("one CLASS alone, PROTECTED", house.find(20, 20, 2, 0, 4), 1);
     }
 
     private static void privateReach() {
@@ -443,6 +481,63 @@ public final class EdgesMembersTest {
         check.due("member 0 below", house.method(21, 4, answering(21, 5), false, PUBLIC), 0);
         house.method(20, 4, answering(20, 6), false, PUBLIC);
         check.comes("member 0", house.find(20, 20, 4, check.type(5), 1), 5, check.instance(21));
+        house = check.again();
+        house.newClass(7, 0);
+        house.newClass(20, 0);
+        int below = check.instance(21);
+        house.method(21, 4, answering(21, 5), false, PUBLIC);
+        check.due("the last member", house.method(20, 4, answering(20, 6), false, PUBLIC), house.told(8) - 1);
+        check.comes("found as the last member", house.find(20, 20, 4, check.type(5), 1), 5, below);
+        house = check.again();
+        house.newClass(7, 0);
+        house.newClass(20, 0);
+        check.due("member 0 above", house.method(20, 4, answering(20, 6), false, PUBLIC), 0);
+        house.method(21, 4, answering(21, 5), false, PUBLIC);
+        check.comes("found as member 0", house.find(20, 20, 4, check.type(5), 1), 5, check.instance(21));
+    }
+
+    /** The members next to one, and the HANDLES next to its own, are others. */
+    private static void neighbours() {
+        HandleHouse house = check.sentence("FIELDS and METHODS of it are numbered from 0 on in one row, 100 at most;");
+        house.newClass(7, 0);
+        house.newClass(20, 0);
+        house.newClass(7, 0);
+        int second = check.make(5, 0, check.type(5, 20, 5, 5), 0, check.make(3, 1, 5, 0), 1, 2);
+        check.due("no PLACES behind it", check.constant(5, 1), second + 1);
+        house.field(22, 7, 6, true, PUBLIC);
+        house.method(20, 4, second, false, PUBLIC);
+        house.field(21, 4, 5, false, PUBLIC);
+        house.field(21, 5, 7, true, PUBLIC);
+        int kept = house.find(21, 21, 5, 0, 5);
+        house.field(22, 0, 5, false, PUBLIC);
+        int maker = check.make(5, 0, check.type(0, 21), 0, check.make(12, 0, check.type(0, 21), 0, kept), 0);
+        house.method(21, 0, maker, false, PUBLIC);
+        house.field(22, 9, 5, true, PUBLIC);
+        int object = check.kept(house.find(21, 21, 0, check.type(0), 3));
+        check.due("NEW, a FIELD ahead of its MAKER and one behind it", house.value(object, 0), 21);
+        check.comesTo("the MAKER was called with it", 21, 0, house.find(21, 21, 5, 0, 4));
+        int held = house.keep();
+        check.comes("with the very INSTANCE", check.make(32, 0, 0, 0), 1, object, held);
+        int h = house.find(20, 21, 4, check.type(5, 5, 5), 1);
+        check.comes("VIRTUAL, a FIELD behind its METHOD", h, 3, object, 10, 7);
+        check.comes("other values", h, 30, object, 100, 70);
+        check.comes("SPECIAL", house.find(21, 20, 4, check.type(5, 5, 5), 2), 33, object, 110, 77);
+        for (int i = house.told(8); i < 100; i++) {
+            house.field(20, 50, 5, true, PUBLIC);
+        }
+        refused("no room", house.field(20, 50, 5, true, PUBLIC), 5);
+        house = check.again();
+        house.newClass(7, 0);
+        for (int i = 0; i < 100; i++) {
+            found("STATIC " + i, house.field(20, i, 6, true, PUBLIC), i);
+        }
+        for (int i = 97; i < 100; i++) {
+            check.comes("ADD", house.find(20, 20, i, 0, 8), 0, 1000 + i);
+        }
+        for (int i = 97; i < 100; i++) {
+            check.comes("GET", house.find(20, 20, i, 0, 4), 1000 + i);
+        }
+        check.comes("member 0 is another", house.find(20, 20, 0, 0, 4), 0);
     }
 
     private static void special() {

@@ -24,6 +24,7 @@ public final class EdgesTextsTest {
         numbers();
         names();
         operations();
+        everyTwoKinds();
         conditions();
         let();
         doing();
@@ -139,6 +140,12 @@ public final class EdgesTextsTest {
         check.faultAt(1, "(def a@_ i()1)");
         check.faultAt(1, "(def @` i()1)");
         check.faultAt(1, "(def @{ i()1)");
+        for (String behind : new String[] {"{", "~", "\u00ff", "_", "`", "A", "@", "/0"}) {
+            check.read("(def a" + behind);
+            check.due("a with " + behind + " behind: the place", check.house.fault(1), 6);
+        }
+        check.faultAt(4, "(def x i((a i))(+ a@|1))");
+        check.comes("a| are two", def("w", "i((a i))(|a 6)"), 7, 3);
     }
 
     private static void signs() {
@@ -395,6 +402,39 @@ public final class EdgesTextsTest {
         check.due("TYPE 1 is that of SELF", check.house.typeAbout(1, -2), 1);
     }
 
+    private static final String[] KINDS = {"z", "b", "s", "c", "i", "j", "o", "n", "oz", "ob", "os", "oc", "oi", "oj", "xi", "xj", "xo", "h", "e"};
+
+    /** The RESULT's kind of the last HANDLE of a FORM. */
+    private static int lastOf(int form) {
+        HandleHouse house = check.house;
+        for (int h = house.told(7) - 1; h >= 0; h--) {
+            if (house.handle(h, 1) == form) {
+                return house.typeAbout(house.handle(h, 0), -1);
+            }
+        }
+        return -1;
+    }
+
+    /** Parts of each kind with parts of each. */
+    private static void everyTwoKinds() {
+        HandleHouse house = check.sentence("both passed as J, if one is of J or OJ, else as I;");
+        for (int b = 1; b <= 19; b++) {
+            for (int c = 1; c <= 19; c++) {
+                String head = "(def f v((a z)(b " + KINDS[b - 1] + ")(c " + KINDS[c - 1] + "))";
+                house = check.again();
+                boolean asFirst = house.may(c, b, false);
+                boolean asSecond = house.may(b, c, false);
+                check.faulty(head + "(if a b c))", asFirst || asSecond ? 0 : 7, asFirst || asSecond ? -1 : head.length());
+                check.due("the kind of the if", lastOf(14), asFirst ? b : asSecond ? c : -1);
+                house = check.again();
+                int wide = b == 6 || c == 6 || b == 14 || c == 14 ? 6 : 5;
+                boolean may = house.may(b, wide, false) && house.may(c, wide, false);
+                check.faulty(head + "(+ b c))", may ? 0 : 7, may ? -1 : head.length());
+                check.due("the kind of the +", lastOf(3), may ? wide : -1);
+            }
+        }
+    }
+
     private static void operations() {
         check.sentence("( OP A B ): both passed as J, if one is of J or OJ, else as I; OPERATION applied (% rest, < less, = equal).");
         check.comesTo("I and I", 13, 7, def("a", "o((a i)(b i))(+ a b)"), 3, 4);
@@ -457,6 +497,9 @@ public final class EdgesTextsTest {
         check.hasType("B", 5, 6, 6, 5);
         shape("NAME is ahead", 5, 5, 0, house.handle(5, 3), 4, 0);
         shape("FOLD", 6, 8, 0, 0, 5, 3);
+        check.comes("the SCOPE behind it is as it was", def("f1", "i((a i)(b i)(c i))(+(let(x 1)(+ x a))(-(* 100 b)c))"), 1994, 3, 20, 10);
+        check.comes("also behind a loop", def("f2", "i((a i)(b i)(c i))(+(loop((x 1)(y 2))(2 3)(= x 1)y)(-(* 100 b)(+ a c)))"), 1990, 3, 20, 10);
+        check.comes("also behind a try", def("f3", "i((a i)(b i)(c i))(+(try(/ a 0)(x)(+ a(code x)))(-(* 100 b)(+ a c)))"), 1993, 3, 20, 10);
         check.faultAt(6, "(def x1 i()(let(b @b)1))");
         check.faultAt(6, "(def x2 i()(+(let(b 1)b)@b))");
         check.faultAt(4, "(def x3 i()(let @b 1 b))");
