@@ -408,8 +408,8 @@ public final class EdgesFaultsTest {
         check.sound("(def a i()1)");
         int handles = house.told(7);
         int types = house.told(6);
-        check.faultAt(8, "@(def b j() 1)");
-        check.due("EMPTY stays", house.told(7), handles + 1);
+        check.faultAt(8, "@(def b j() 77)");
+        check.due("EMPTY stays, nothing behind it", house.told(7), handles + 1);
         check.due("its TYPE stays", house.told(6), types + 1);
         check.due("no DEFINITION", house.fault(2), 1);
         check.due("no HANDLE with its NAME", check.named("b"), -1);

@@ -4,6 +4,7 @@ public final class EdgesRoomTest {
     /** What is told of each text: its head, its body, then places of it, each with what is made there. */
     private static final String[][] TEXTS = {
         {"(def f v((a i)(b z))", "77", "(def:thh", "77:hth", "(def:h"},
+        {"(def f v((a i)(b z))", "a", "(def:thh", "a:Hth", "(def:h"},
         {"(def f v((a i)(b j))", "(same a b)", "(def:thh", "a b:Hth", "b):Hth", "(same:thhHtHHh", "(def:h"},
         {"(def f v((a i)(b j))", "(is n a)", "(def:thh", "a):Hth", "(is:thHtHh", "(def:h"},
         {"(def f j((a i)(b j))", "(do a b)", "(def:thh", "a b:Hth", "b):Hh", "(do:thh"},
@@ -128,6 +129,9 @@ public final class EdgesRoomTest {
             "(try 1(x)@q)", "@(try 1(x)(null e))", "(loop((x @q))(1)1 1)", "(loop((@1 1))(1)1 1)", "(loop(@)(1)1 1)", "(loop((x 1))(@q)1 1)", "(loop((x 1))@1 1 1)",
             "(loop((x 1))(1)@q 1)", "(loop((x 1))(1)(= 1 1)@q)", "@(loop((x 1))((null e))(= 1 1)x)", "@(loop((x 1))(1)(null e)x)", "@(loop((x(set r 0 1)",
             "(f 1 @q)", "(f @q 1)", "@(f 1)", "@(f 1 2)", "@(f(null e)r)", "@(size 1)", "@(get 1 2)", "@(get r(null e))", "@(set r 1(null e))", "@(set r(null e)1)",
+            "(try @q 77(x)1)", "(try 1(@1 77)1)", "(try 1 @1 77)", "(try 1(x @1 77)1)", "(try 1(x)@q 77)", "(let(x @q 77)1)", "(let(@1 77)1)", "(let(x 1)@q 77)",
+            "(let @1 77)", "(loop((x @q 77))(1)1 1)", "(loop((@1 77))(1)1 1)", "(loop(@1 77)(1)1 1)", "(loop((x 1))(@q 77)1 1)", "(loop((x 1))@1 77)",
+            "(loop((x 1))(1)@q 77)", "(f @q 77)", "(get @q 77)", "(set r @q 77)", "(set @q 77 88)", "(@1 77)", "(as @5 77)", "(as @q 77)", 
             "@(row i 1)", "@(row xi(null e))", "@(is i 1)", "@(throw v 1)", "@(code 1)", "(same 1 @q)", "@(force h 1)", "@(as h 1)", "(do @q 1)", "(do 1 @q)"};
         String head = "(def f v((a i)(r xi))";
         for (String one : faulty) {

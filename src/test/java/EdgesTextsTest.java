@@ -418,6 +418,13 @@ public final class EdgesTextsTest {
     /** Parts of each kind with parts of each. */
     private static void everyTwoKinds() {
         HandleHouse house = check.sentence("both passed as J, if one is of J or OJ, else as I;");
+        for (int k = 1; k <= 19; k++) {
+            String head = "(def f v((a z)(r xi)(b " + KINDS[k - 1] + "))";
+            check.again();
+            check.faulty(head + "(if a b(set r 0 1)))", 7, head.length());
+            check.again();
+            check.faulty(head + "(if a(set r 0 1)b))", 7, head.length());
+        }
         for (int b = 1; b <= 19; b++) {
             for (int c = 1; c <= 19; c++) {
                 String head = "(def f v((a z)(b " + KINDS[b - 1] + ")(c " + KINDS[c - 1] + "))";
