@@ -451,7 +451,8 @@ public final class EdgesFaultsTest {
     private static void nothingMore() {
         HandleHouse house = check.sentence("What was made until then stays,");
         String[] faulty = {"(+ q 77)", "(q 77)", "(as q 77)", "(? 77 88)", "(99999999999 77)", "(abcdefghi 77)", "(if q 77 88)", "(let(q)77)", "(let(q q)77)",
-            "(do q 77)", "(loop((q))(77)88 99)", "(try q(q)77)", "(throw q 77)", "(null q)77", "(i ? 77)", "(set 99999999999 77 88)", "(get q 77)"};
+            "(do q 77)", "(loop((q))(77)88 99)", "(try q(q)77)", "(throw q 77)", "(null q)77", "(i ? 77)", "(as 5 77)", "(force 5 77)", "(row 5 77)", "(is 5 77)",
+            "(throw 5 77)", "(as(77)88)", "(force q 77)", "(row q 77)", "(is q 77)", "(set 99999999999 77 88)", "(get q 77)"};
         for (String one : faulty) {
             house = check.again();
             check.read("(def i i()" + one + ")");

@@ -522,6 +522,9 @@ public final class EdgesMembersTest {
         check.comes("VIRTUAL, a FIELD behind its METHOD", h, 3, object, 10, 7);
         check.comes("other values", h, 30, object, 100, 70);
         check.comes("SPECIAL", house.find(21, 20, 4, check.type(5, 5, 5), 2), 33, object, 110, 77);
+        house.method(21, 4, check.make(5, 0, check.type(5, 21, 5, 5), 0, check.make(3, 2, 5, 0), 1, 2), false, PUBLIC);
+        house.field(21, 4, 5, true, PUBLIC);
+        check.comes("VIRTUAL, a FIELD behind the one that is called", h, 70, object, 10, 7);
         for (int i = house.told(8); i < 100; i++) {
             house.field(20, 50, 5, true, PUBLIC);
         }

@@ -10,6 +10,7 @@ public final class EdgesRoomTest {
         {"(def f j((a i)(b j))", "(do a b)", "(def:thh", "a b:Hth", "b):Hh", "(do:thh"},
         {"(def f j((a o)(b j))", "(if a b b)", "(def:thh", "a b:Hth", "b b:Hh", "(if:thh"},
         {"(def f v((a z)(b i)(c j))", "(if a b c)", "(def:thh", "a b:hth", "b c:Hth", "c):Hth", "(if:hh", "(def:h"},
+        {"(def f v((a z)(b i)(c b))", "(if a b c)", "(def:thh", "a b:hth", "b c:Hth", "c):Hth", "(if:hh", "(def:h"},
         {"(def f v((a j)(b i)(c o))", "(loop((x a)(y b))(y y)c c)", "(def:thh", "a)(y:Hth", "b))(y:Hth", "y y:th", "c c:Hth", "(loop:ththth", "(def:h"},
         {"(def f j((a j)(b i))", "(try a(x)b)", "(def:thh", "a(x:Hh", "b):Hth", "(try:thh"},
         {"(def f v((a b)(b z))", "(row xj a)", "(def:thh", "a):Hth", "(row:thHtHh", "(def:h"},
@@ -70,55 +71,79 @@ public final class EdgesRoomTest {
             + " then what it is is made.");
         for (String[] text : TEXTS) {
             String made = made(text);
-            int all = count(made, made.length(), "hH");
-            for (int i = 0; i <= made.length(); i++) {
-                if (i == made.length() || made.charAt(i) != 't') {
-                    int room = count(made, i, "hH");
-                    handlesFor(text, text[1], i, room, room == all ? 0 : 8);
-                    if (i < made.length() && placeOf(text, i) > 0) {
-                        handlesFor(text, "(+ " + text[1] + " 8888l)", i, room, 8);
+            for (int i = 0; i < made.length(); i++) {
+                if (made.charAt(i) != 't') {
+                    noHandleFor(text, "", "", i);
+                    if (placeOf(text, i) > 0) {
+                        noHandleFor(text, "(+ ", " 8888l)", i);
+                        noHandleFor(text, "(same ", " a)", i);
+                        noHandleFor(text, "(do ", " 5l)", i);
                     }
                 }
             }
+            HandleHouse house = filled(500 - count(made, made.length(), "hH"));
+            int types = house.told(6);
+            check.sound(text[0] + text[1] + ")");
+            check.due(text[1] + ": TYPES", house.told(6) - types, count(made, made.length(), "tH"));
+            check.due(text[1] + ": HANDLES", house.told(7), 500);
         }
     }
 
-    private static void handlesFor(String[] text, String body, int event, int room, int fault) {
-        HandleHouse house = check.again();
+    /** A house with so many HANDLES, that of 5l among them, and with the TYPES that fillTypes() makes first. */
+    private static HandleHouse filled(int handles) {
+        check.again();
+        check.constant(6, 5);
         check.fillTypes(230);
-        check.fillHandles(500 - room);
+        check.fillHandles(handles);
+        return check.house;
+    }
+
+    /** There is room for the HANDLES that are made ahead of one, not for that one. */
+    private static void noHandleFor(String[] text, String ahead, String behind, int event) {
+        String made = made(text);
+        HandleHouse house = filled(500 - count(made, event, "hH"));
         int types = house.told(6);
-        int ahead = body.indexOf(text[1]);
-        check.faulty(text[0] + body + ")", fault, fault == 0 ? -1 : placeOf(text, event) + (placeOf(text, event) == 0 ? 0 : ahead));
-        check.due(body + " with room for " + room + ": TYPES", house.told(6) - types, count(made(text), event, "tH"));
-        check.due(body + " with room for " + room + ": HANDLES", house.told(7), 500);
+        faultOf(text, ahead, behind, event);
+        check.due(ahead + text[1] + ", HANDLE " + event + ": TYPES", house.told(6) - types, count(made, event, "tH"));
+        check.due(ahead + text[1] + ", HANDLE " + event + ": HANDLES", house.told(7), 500);
+    }
+
+    private static void faultOf(String[] text, String ahead, String behind, int event) {
+        int place = placeOf(text, event);
+        check.faulty(text[0] + ahead + text[1] + behind + ")", 8, place == 0 ? 0 : place + ahead.length());
     }
 
     private static void typesMade() {
         check.sentence("8 what can't be made (a TYPE, a HANDLE, a TARGET; by make()'s 4, 5).");
         for (String[] text : TEXTS) {
             String made = made(text);
-            int all = count(made, made.length(), "tH");
-            for (int i = 0; i <= made.length(); i++) {
-                if (i == made.length() || made.charAt(i) != 'h') {
-                    int room = count(made, i, "tH");
-                    typesFor(text, text[1], i, room, room == all ? 0 : 8);
-                    if (i < made.length() && placeOf(text, i) > 0) {
-                        typesFor(text, "(do " + text[1] + " 8888)", i, room, 8);
+            for (int i = 0; i < made.length(); i++) {
+                if (made.charAt(i) != 'h') {
+                    noTypeFor(text, "", "", i);
+                    if (placeOf(text, i) > 0) {
+                        noTypeFor(text, "(do ", " 8888)", i);
+                        noTypeFor(text, "(same ", " a)", i);
                     }
                 }
             }
+            HandleHouse house = check.again();
+            check.fillTypes(300 - count(made, made.length(), "tH"));
+            int handles = house.told(7);
+            check.sound(text[0] + text[1] + ")");
+            check.due(text[1] + ": TYPES", house.told(6), 300);
+            check.due(text[1] + ": HANDLES", house.told(7) - handles, count(made, made.length(), "hH"));
         }
     }
 
-    private static void typesFor(String[] text, String body, int event, int room, int fault) {
+    /** There is room for the TYPES that are made ahead of one, not for that one. */
+    private static void noTypeFor(String[] text, String ahead, String behind, int event) {
+        String made = made(text);
         HandleHouse house = check.again();
-        check.fillTypes(300 - room);
+        check.fillTypes(300 - count(made, event, "tH"));
         int handles = house.told(7);
-        int ahead = body.indexOf(text[1]);
-        check.faulty(text[0] + body + ")", fault, fault == 0 ? -1 : placeOf(text, event) + (placeOf(text, event) == 0 ? 0 : ahead));
-        check.due(body + " with room for " + room + ": HANDLES", house.told(7) - handles, count(made(text), event, "hH"));
-        check.due(body + " with room for " + room + ": TYPES", house.told(6), 300);
+        faultOf(text, ahead, behind, event);
+        check.due(ahead + text[1] + ", TYPE " + event + ": HANDLES", house.told(7) - handles, count(made, event, "hH"));
+        check.due(ahead + text[1] + ", TYPE " + event + ": TYPES", house.told(6), 300);
     }
 
     private static void nothingBehind() {
